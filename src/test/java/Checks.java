@@ -1,0 +1,43 @@
+/** What the tests share: tables made from a text, and a count of the answers that are not due. */
+final class Checks {
+    static final int UNKNOWN = -1, BAD = -2, LATE = -3, FULL = -4, NONE = -9;
+
+    private int asked;
+    private int wrong;
+
+    void due(String call, long got, long want) {
+        asked++;
+        if (got != want) {
+            wrong++;
+            System.out.println(call + " answered " + got + ", due is " + want);
+        }
+    }
+
+    /** Ends the test's process with exit code 1 if an answer was wrong. */
+    void end(String test) {
+        System.out.println(test + ": " + asked + " answers, " + wrong + " wrong");
+        if (wrong != 0) {
+            System.exit(1);
+        }
+    }
+
+    /** A new object with that text written, and no table made of it yet. */
+    static KnowsBetter written(String text) {
+        KnowsBetter made = new KnowsBetter();
+        rewrite(made, text);
+        return made;
+    }
+
+    static void rewrite(KnowsBetter made, String text) {
+        made.wipe();
+        for (int i = 0; i < text.length(); i++) {
+            made.write(text.charAt(i));
+        }
+    }
+
+    static KnowsBetter table(String text) {
+        KnowsBetter made = written(text);
+        made.table();
+        return made;
+    }
+}
