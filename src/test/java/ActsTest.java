@@ -8,6 +8,7 @@ public final class ActsTest {
         hearersAreTold();
         licensedPaysNothing();
         shyOnesShareGuilt();
+        shyOnesOnAllSeats();
         nobodyKnows();
         sayRefusals();
         teachAndForget();
@@ -51,6 +52,9 @@ public final class ActsTest {
         CHECKS.due("all fines", made.about(2), 1);
         made.say(0, 0, 2);
         CHECKS.due("fines add up", made.person(0, 4), 2);
+        made.teach(2, 0);
+        CHECKS.due("wool puts right, too", made.say(1, 0, 1), 2);
+        CHECKS.due("person 0 is told, too", made.person(0, 1), 1);
     }
 
     private static void licensedPaysNothing() {
@@ -84,6 +88,17 @@ public final class ActsTest {
             CHECKS.due("the liar of " + shy, made.person(0, 4), 0);
             CHECKS.due("nobody is told of " + shy, made.person(4, 1), shy == 4 ? 1 : 0);
             CHECKS.due("an act", made.about(4), 1);
+        }
+    }
+
+    private static void shyOnesOnAllSeats() {
+        KnowsBetter made = Checks.table("KP2baP2baP2baP2baP2ba");
+        for (int liar = 0; liar < 5; liar++) {
+            CHECKS.due("liar " + liar, made.say(liar, 0, 1), Checks.NONE);
+            CHECKS.due("its two neighbours pay", made.about(2), 12);
+            CHECKS.due("the next one", made.person((liar + 1) % 5, 4), 6);
+            CHECKS.due("the last one", made.person((liar + 4) % 5, 4), 6);
+            made.undo();
         }
     }
 

@@ -89,6 +89,7 @@ public final class KnowingTest {
         CHECKS.due("n 4", made.judge(4, 0), Checks.BAD);
         CHECKS.due("n -1", made.judge(-1, 211), Checks.BAD);
         CHECKS.due("row -1", made.judge(1, -1), Checks.BAD);
+        CHECKS.due("row 0", made.judge(1, 0), 0);
         CHECKS.due("four figures", made.judge(1, 1000), Checks.BAD);
         CHECKS.due("three figures", made.judge(1, 999), 0);
         CHECKS.due("seven figures", made.judge(2, 1000000), Checks.BAD);
