@@ -1,3 +1,8 @@
+import java.lang.reflect.InvocationTargetException;
+import java.lang.reflect.Method;
+import java.util.Arrays;
+import java.util.Comparator;
+
 /** What the tests share: tables made from a text, and a count of the answers that are not due. */
 final class Checks {
     static final int UNKNOWN = -1, BAD = -2, LATE = -3, FULL = -4, NONE = -9;
@@ -10,6 +15,24 @@ final class Checks {
         if (got != want) {
             wrong++;
             System.out.println(call + " answered " + got + ", due is " + want);
+        }
+    }
+
+    /** Runs each test of a class that stands for a sentence of the document; one that fails is told by it. */
+    void runEdges(Class<?> tests) throws IllegalAccessException, InvocationTargetException {
+        Method[] methods = tests.getDeclaredMethods();
+        Arrays.sort(methods, Comparator.comparing(Method::getName));
+        for (Method method : methods) {
+            Edge edge = method.getAnnotation(Edge.class);
+            if (edge != null) {
+                int askedBefore = asked;
+                int wrongBefore = wrong;
+                method.invoke(null);
+                due("a test that asks nothing: " + method.getName(), asked == askedBefore ? 1 : 0, 0);
+                if (wrong != wrongBefore) {
+                    System.out.println("  so it does not hold: " + edge.value());
+                }
+            }
         }
     }
 
@@ -35,6 +58,7 @@ final class Checks {
         }
     }
 
+    /** A new object whose table that text is, with nothing else done. */
     static KnowsBetter table(String text) {
         KnowsBetter made = written(text);
         made.table();

@@ -1,11 +1,12 @@
 import java.util.Random;
 
 /**
- * Runs of up to 512 random calls, right and wrong ones, each answer compared with PlainModel's.
+ * Runs of at most 512 random calls, right and wrong ones, each answer compared with PlainModel's.
  * What a refused call changed would show in the answers behind it.
  */
 public final class RandomRunsTest {
-    private static final int RUNS = 400, CALLS = 480;
+    /** A table set at the very last and the questions at the end are some 70 more: 512 in all are promised. */
+    private static final int RUNS = 450, CALLS = 430;
     private static final int[] WILD = {-1, 7, 32, 33, 64, 255, 256, Integer.MAX_VALUE, Integer.MIN_VALUE};
 
     private static final Checks CHECKS = new Checks();
@@ -22,7 +23,6 @@ public final class RandomRunsTest {
     }
 
     private void run(int run) {
-        StringBuilder calls = new StringBuilder();
         int asked = run % 10 == 0 ? 0 : setTable();
         while (asked < CALLS) {
             int kind = RANDOM.nextInt(100);
