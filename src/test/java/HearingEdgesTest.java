@@ -174,6 +174,18 @@ public final class HearingEdgesTest {
         CHECKS.due("how many", middle.seating(2, 0, 1, false, false), 0);
     }
 
+    @Edge("Terms 2: SEATING: the one by which fewest (most) that HEAR it KNOW that FACT (SHY ones, and WOOL 1 off)")
+    static void seatingOfShyAndWool() {
+        KnowsBetter made = Checks.table("KP0aaP2baP2baP1baP1ba");
+        CHECKS.due("wool 2 off, fewest", made.seating(0, 0, 2, false, false), 2);
+        CHECKS.due("figures", made.seating(0, 0, 2, false, true), 12453);
+        CHECKS.due("wool 1 off, most", made.seating(0, 0, 2, true, false), 4);
+        CHECKS.due("figures", made.seating(0, 0, 2, true, true), 14235);
+        CHECKS.due("by voice 1 they are alike", made.seating(0, 0, 1, false, false), 2);
+        CHECKS.due("figures", made.seating(0, 0, 1, true, true), 12345);
+        CHECKS.due("who says it counts not", made.seating(1, 0, 2, true, false), 3);
+    }
+
     @Edge("Terms 2: In what follows nothing is changed. (SEATING)")
     static void seatingLeavesSeats() {
         KnowsBetter made = Checks.table("KP0aaP0baP0aaP0baP0aa");

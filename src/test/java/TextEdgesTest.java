@@ -126,6 +126,22 @@ public final class TextEdgesTest {
 
     // ---- promise 4
 
+    @Edge("Promise 4: FAULT; NONE. (from no byte to forty, and one more)")
+    static void faultAsItIsWritten() {
+        String text = "K" + FIVE + FOUR_RULES + "R00";
+        KnowsBetter made = new KnowsBetter();
+        CHECKS.due("no byte", made.fault(), 0);
+        for (int length = 1; length <= 40; length++) {
+            made.write(text.charAt(length - 1));
+            int due = length > 37 ? 37 : length % 4 == 1 ? -9 : length;
+            CHECKS.due(length + " bytes", made.fault(), due);
+        }
+        CHECKS.due("one more", made.write('0'), -4);
+        CHECKS.due("fault", made.fault(), 37);
+        made.wipe();
+        CHECKS.due("no byte again", made.fault(), 0);
+    }
+
     @Edge("Terms 1: its length, if it is only not at its end")
     static void eachStartOfATable() {
         String text = "KP0aaP3hhR000P1ahR555P2haR050R505P0cd";
