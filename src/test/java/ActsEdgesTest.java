@@ -4,7 +4,7 @@ public final class ActsEdgesTest {
     private static final String FIVE_THAT_KNOW_NOTHING = "KP0aaP0aaP0aaP0aaP0aa";
 
     public static void main(String[] args) throws ReflectiveOperationException {
-        CHECKS.runEdges(ActsEdgesTest.class);
+        CHECKS.run(ActsEdgesTest.class);
         CHECKS.end("ActsEdgesTest");
     }
 
@@ -19,7 +19,7 @@ public final class ActsEdgesTest {
 
     // ---- promise 9
 
-    @Edge("Promise 9: UNKNOWN: person, fact")
+    @Says("Promise 9: UNKNOWN: person, fact")
     static void sayPersonAndFact() {
         KnowsBetter made = Checks.table("KP0hhP0hhP0hh");
         CHECKS.due("person -1", made.say(-1, 0, 1), -1);
@@ -33,7 +33,7 @@ public final class ActsEdgesTest {
         CHECKS.due("acts", made.about(4), 3);
     }
 
-    @Edge("Promise 9: BAD: voice.")
+    @Says("Promise 9: BAD: voice.")
     static void sayVoice() {
         KnowsBetter made = Checks.table("KP0aaP0aaP0baP0aa");
         CHECKS.due("voice 0", made.say(0, 0, 0), -2);
@@ -44,7 +44,7 @@ public final class ActsEdgesTest {
         CHECKS.due("acts", made.about(4), 2);
     }
 
-    @Edge("Promise 9: SAID: who puts it right; NONE.")
+    @Says("Promise 9: SAID: who puts it right; NONE.")
     static void sayOfNobodyElse() {
         KnowsBetter made = Checks.table("KP0hh");
         for (int fact = 0; fact < 6; fact++) {
@@ -54,7 +54,7 @@ public final class ActsEdgesTest {
         CHECKS.due("acts", made.about(4), 6);
     }
 
-    @Edge("Terms 1: One HEARS another one by a VOICE v (1, 2), if it is v FAR at most")
+    @Says("Terms 1: One HEARS another one by a VOICE v (1, 2), if it is v FAR at most")
     static void tellsThoseThatHear() {
         KnowsBetter near = Checks.table("KP0aaP0baP0aaP0aaP0aa");
         CHECKS.due("by voice 1", near.say(0, 0, 1), 1);
@@ -68,7 +68,7 @@ public final class ActsEdgesTest {
         CHECKS.due("one does not hear itself", loud.person(0, 1), 0);
     }
 
-    @Edge("Terms 1: (WOOL: 1 at most)")
+    @Says("Terms 1: (WOOL: 1 at most)")
     static void woolHears1OffAtMost() {
         KnowsBetter made = Checks.table("KP0aaP1aaP1baP1baP0aa");
         CHECKS.due("wool 2 off puts nothing right", made.say(0, 0, 2), -9);
@@ -82,7 +82,7 @@ public final class ActsEdgesTest {
         CHECKS.due("wool 2 off is not", told.person(2, 1) + told.person(3, 1), 0);
     }
 
-    @Edge("Terms 1: the first one that is not SHY, going from SEAT to SEAT (upwards) from the one that said it, does")
+    @Says("Terms 1: the first one that is not SHY, going from SEAT to SEAT (upwards) from the one that said it, does")
     static void firstOneUpwardsFromEachSeat() {
         KnowsBetter made = Checks.table("KP0baP0baP0baP0baP0ba");
         for (int person = 0; person < 5; person++) {
@@ -96,7 +96,7 @@ public final class ActsEdgesTest {
         CHECKS.due("no fines for shy ones", round.person(0, 4) + round.person(3, 4) + round.person(4, 4), 0);
     }
 
-    @Edge("Terms 1: then all that HEAR are TOLD that FACT (who knew it by a RULE, and who is SHY, too)")
+    @Says(value = "Terms 1: then all that HEAR are TOLD that FACT", by = "who knew it by a RULE, and who is SHY, too")
     static void allThatHearAreTold() {
         KnowsBetter made = Checks.table("KP0aaP3daP2aaP2haP1aaR012");
         CHECKS.due("by a rule", made.say(0, 2, 2), 1);
@@ -107,7 +107,7 @@ public final class ActsEdgesTest {
         CHECKS.due("not to who said it", made.person(0, 1), 0);
     }
 
-    @Edge("Terms 1: and who said it has 1 of FINES (LICENSED: none).")
+    @Says("Terms 1: and who said it has 1 of FINES (LICENSED: none).")
     static void finesOfWhoSaidIt() {
         int[] due = {1, 1, 1, 0};
         for (int kind = 0; kind < 4; kind++) {
@@ -120,7 +120,7 @@ public final class ActsEdgesTest {
         }
     }
 
-    @Edge("Terms 1: must put it right: the first one that is not SHY (PLAIN, WOOL, LICENSED)")
+    @Says(value = "Terms 1: must put it right: the first one that is not SHY", by = "PLAIN, WOOL, LICENSED")
     static void eachKindPutsRightButTheShy() {
         int[] due = {1, 1, -9, 1};
         for (int kind = 0; kind < 4; kind++) {
@@ -129,7 +129,7 @@ public final class ActsEdgesTest {
         }
     }
 
-    @Edge("Terms 1: If all of them are SHY, each of them has 12 by how many they are (cut) of FINES.")
+    @Says("Terms 1: If all of them are SHY, each of them has 12 by how many they are (cut) of FINES.")
     static void oneToFourShyOnes() {
         int[] each = {12, 6, 4, 3};
         for (int kind = 0; kind < 4; kind++) {
@@ -148,7 +148,8 @@ public final class ActsEdgesTest {
         }
     }
 
-    @Edge("Terms 1: If all of them are SHY (all that KNOW it, of such as HEAR: not who hears and knows not)")
+    @Says(value = "Terms 1: If all of them are SHY",
+        by = "all that KNOW it, of such as HEAR: not who hears and knows not")
     static void shyOnesThatKnowNotOrHearNotPayNothing() {
         KnowsBetter made = Checks.table("KP0aaP2baP2baP2baP2aa");
         CHECKS.due("by voice 1", made.say(0, 0, 1), -9);
@@ -161,7 +162,7 @@ public final class ActsEdgesTest {
         CHECKS.due("not told it", byRule.person(1, 1), 3);
     }
 
-    @Edge("Terms 1: If nobody KNOWS it, nothing is (it is an ACT all the same).")
+    @Says("Terms 1: If nobody KNOWS it, nothing is (it is an ACT all the same).")
     static void nobodyKnowsIt() {
         KnowsBetter made = Checks.table("KP0aaP2aaP0baP1aaP2aa");
         CHECKS.due("nobody at all", made.say(0, 5, 2), -9);
@@ -177,7 +178,7 @@ public final class ActsEdgesTest {
 
     // ---- promises 10, 11
 
-    @Edge("Promise 10: UNKNOWN: person, fact; LATE: it was TOLD that.")
+    @Says("Promise 10: UNKNOWN: person, fact; LATE: it was TOLD that.")
     static void teachRefusals() {
         KnowsBetter made = Checks.table("KP0aaP0aa");
         CHECKS.due("person -1", made.teach(-1, 0), -1);
@@ -192,7 +193,7 @@ public final class ActsEdgesTest {
         CHECKS.due("acts", made.about(4), 2);
     }
 
-    @Edge("Promise 10: TAUGHT: what it KNOWS then, as bits (from nothing to all; of RULES, too)")
+    @Says(value = "Promise 10: TAUGHT: what it KNOWS then, as bits", by = "from nothing to all; of RULES, too")
     static void teachFromNothingToAll() {
         KnowsBetter made = Checks.table("KP0aaP0aaR234R111");
         int[] due = {1, 3, 7, 31, 31, 63};
@@ -203,7 +204,7 @@ public final class ActsEdgesTest {
         CHECKS.due("the other one", made.person(1, 1), 0);
     }
 
-    @Edge("Promise 10: LATE: it was TOLD that. (KNOWN by a RULE alone is not TOLD)")
+    @Says(value = "Promise 10: LATE: it was TOLD that.", by = "KNOWN by a RULE alone is not TOLD")
     static void teachWhatARuleGives() {
         KnowsBetter made = Checks.table("KP0baR005");
         CHECKS.due("it knows it", made.person(0, 2), 33);
@@ -212,7 +213,7 @@ public final class ActsEdgesTest {
         CHECKS.due("teach again", made.teach(0, 5), -3);
     }
 
-    @Edge("Promise 11: UNKNOWN: person, fact; LATE: it was not TOLD that.")
+    @Says("Promise 11: UNKNOWN: person, fact; LATE: it was not TOLD that.")
     static void forgetRefusals() {
         KnowsBetter made = Checks.table("KP0hhP0aa");
         CHECKS.due("person -1", made.forget(-1, 0), -1);
@@ -228,7 +229,7 @@ public final class ActsEdgesTest {
         CHECKS.due("acts", made.about(4), 2);
     }
 
-    @Edge("Promise 11: FORGOT: what it KNOWS then, as bits (from all to nothing; of RULES, too)")
+    @Says(value = "Promise 11: FORGOT: what it KNOWS then, as bits", by = "from all to nothing; of RULES, too")
     static void forgetFromAllToNothing() {
         KnowsBetter made = Checks.table("KP0hhP0hhR450");
         int[] due = {63, 61, 57, 49, 32, 0};
@@ -239,7 +240,7 @@ public final class ActsEdgesTest {
         CHECKS.due("the other one", made.person(1, 1), 63);
     }
 
-    @Edge("Promise 11: LATE: it was not TOLD that. (KNOWN by a RULE alone is not TOLD)")
+    @Says(value = "Promise 11: LATE: it was not TOLD that.", by = "KNOWN by a RULE alone is not TOLD")
     static void forgetWhatARuleGives() {
         KnowsBetter made = Checks.table("KP0bbR005R053");
         CHECKS.due("it knows it", made.person(0, 2), 41);
@@ -250,7 +251,7 @@ public final class ActsEdgesTest {
 
     // ---- promise 12
 
-    @Edge("Promise 12: UNKNOWN: person, other; BAD: both are one.")
+    @Says("Promise 12: UNKNOWN: person, other; BAD: both are one.")
     static void changeRefusals() {
         KnowsBetter made = Checks.table("KP0aaP0aaP0aa");
         CHECKS.due("person -1", made.change(-1, 0), -1);
@@ -266,7 +267,7 @@ public final class ActsEdgesTest {
         CHECKS.due("nobody", new KnowsBetter().change(0, 1), -1);
     }
 
-    @Edge("Promise 12: CHANGED: the SEAT of the one then.")
+    @Says("Promise 12: CHANGED: the SEAT of the one then.")
     static void changeOfFirstAndLastSeat() {
         KnowsBetter made = Checks.table(FIVE_THAT_KNOW_NOTHING);
         CHECKS.due("from the first seat to the last", made.change(0, 4), 4);
@@ -280,7 +281,7 @@ public final class ActsEdgesTest {
 
     // ---- promise 13
 
-    @Edge("Promise 13: LATE: there is none.")
+    @Says("Promise 13: LATE: there is none.")
     static void undoOfNoAct() {
         CHECKS.due("nobody", new KnowsBetter().undo(), -3);
         KnowsBetter made = Checks.table("KP0aa");
@@ -291,7 +292,8 @@ public final class ActsEdgesTest {
         CHECKS.due("nothing more is undone", made.person(0, 1), 0);
     }
 
-    @Edge("Terms 1: ACTS are a row (14 at most; when it is full, the first one is forgotten)")
+    @Says("Terms 1: ACTS (SAID, TAUGHT, FORGOT, CHANGED) are a row (14 at most; when it is full, the first one "
+            + "is forgotten)")
     static void fourteenActsAndMore() {
         for (int acts = 12; acts <= 31; acts++) {
             KnowsBetter made = Checks.table("KP0aaP2ba");
@@ -308,7 +310,7 @@ public final class ActsEdgesTest {
         }
     }
 
-    @Edge("Terms 1: ACTS (SAID, TAUGHT, FORGOT, CHANGED) are a row (of each sort one more than 14)")
+    @Says(value = "Terms 1: ACTS (SAID, TAUGHT, FORGOT, CHANGED) are a row", by = "of each sort one more than 14")
     static void eachSortForgetsTheFirst() {
         for (int sort = 0; sort < 4; sort++) {
             KnowsBetter made = Checks.table("KP0gaP0ba");
@@ -340,7 +342,7 @@ public final class ActsEdgesTest {
         }
     }
 
-    @Edge("Promise 13: The last ACT is undone: how many are left. (each sort, the last one first)")
+    @Says(value = "Promise 13: The last ACT is undone: how many are left.", by = "each sort, the last one first")
     static void lastActFirst() {
         KnowsBetter made = Checks.table("KP0gaP0baP0aaP2hhP2hh");
         for (int sort = 0; sort < 4; sort++) {
@@ -362,7 +364,7 @@ public final class ActsEdgesTest {
         CHECKS.due("fines of all", made.about(2), 0);
     }
 
-    @Edge("Promise 13: The last ACT is undone (SAID: what those that HEAR were TOLD, too)")
+    @Says(value = "Promise 13: The last ACT is undone", by = "SAID: what those that HEAR were TOLD, too")
     static void undoOfWhatWasTold() {
         KnowsBetter made = Checks.table("KP0aaP0baP0aaP1aaP2aa");
         made.say(0, 0, 2);
@@ -374,7 +376,7 @@ public final class ActsEdgesTest {
         }
     }
 
-    @Edge("Promise 13: how many are left. (ACTS again behind undone ones, over the end of the row)")
+    @Says(value = "Promise 13: how many are left.", by = "ACTS again behind undone ones, over the end of the row")
     static void actsBehindUndoneOnes() {
         KnowsBetter made = Checks.table("KP0aaP0aa");
         for (int act = 0; act < 14; act++) {

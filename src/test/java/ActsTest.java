@@ -2,24 +2,17 @@
 public final class ActsTest {
     private static final Checks CHECKS = new Checks();
 
-    public static void main(String[] args) {
-        firstUpwardsPutsRight();
-        seatsCountNotPeople();
-        hearersAreTold();
-        licensedPaysNothing();
-        shyOnesShareGuilt();
-        shyOnesOnAllSeats();
-        nobodyKnows();
-        sayRefusals();
-        teachAndForget();
-        change();
-        undoOfEachAct();
-        fourteenActs();
-        refusedIsNoAct();
+    public static void main(String[] args) throws ReflectiveOperationException {
+        CHECKS.run(ActsTest.class);
         CHECKS.end("ActsTest");
     }
 
-    private static void firstUpwardsPutsRight() {
+    @Says({
+        "Promise 9: SAID: who puts it right",
+        "Terms 1: SAID: a PERSON says a FACT falsely by a VOICE. Those that KNOW it, of such as HEAR, must put "
+            + "it right: the first one that is not SHY, going from SEAT to SEAT (upwards) from the one that said "
+            + "it, does"})
+    static void firstUpwardsPutsRight() {
         KnowsBetter made = Checks.table("KP0baP0baP0aaP0baP0ba");
         CHECKS.due("from 0", made.say(0, 0, 1), 1);
         CHECKS.due("from 1, past one that does not know", made.say(1, 0, 2), 3);
@@ -33,7 +26,9 @@ public final class ActsTest {
         CHECKS.due("is told it, too", byRule.person(1, 1), 7);
     }
 
-    private static void seatsCountNotPeople() {
+    @Says(value = "Terms 1: going from SEAT to SEAT (upwards) from the one that said it",
+        by = "of SEATS, not of PEOPLE")
+    static void seatsCountNotPeople() {
         KnowsBetter made = Checks.table("KP0aaP0baP0aaP0ba");
         made.change(1, 3);
         CHECKS.due("who sits next", made.say(0, 0, 1), 3);
@@ -41,7 +36,8 @@ public final class ActsTest {
         CHECKS.due("from seat 2", made.say(0, 0, 1), 1);
     }
 
-    private static void hearersAreTold() {
+    @Says("Terms 1: then all that HEAR are TOLD that FACT, and who said it has 1 of FINES")
+    static void hearersAreTold() {
         KnowsBetter made = Checks.table("KP0aaP0baP1aaP2aaP0aa");
         CHECKS.due("say(0, 0, 2)", made.say(0, 0, 2), 1);
         int[] told = {0, 1, 0, 1, 1};
@@ -57,7 +53,8 @@ public final class ActsTest {
         CHECKS.due("person 0 is told, too", made.person(0, 1), 1);
     }
 
-    private static void licensedPaysNothing() {
+    @Says("Terms 1: who said it has 1 of FINES (LICENSED: none).")
+    static void licensedPaysNothing() {
         KnowsBetter made = Checks.table("KP3aaP3ba");
         CHECKS.due("a licensed one puts right", made.say(0, 0, 1), 1);
         CHECKS.due("no fines", made.about(2), 0);
@@ -71,7 +68,8 @@ public final class ActsTest {
         CHECKS.due("the liar", shy.person(0, 4), 0);
     }
 
-    private static void shyOnesShareGuilt() {
+    @Says("Terms 1: If all of them are SHY, each of them has 12 by how many they are (cut) of FINES.")
+    static void shyOnesShareGuilt() {
         int[] each = {12, 6, 4, 3};
         for (int shy = 1; shy <= 4; shy++) {
             StringBuilder text = new StringBuilder("KP0aa");
@@ -91,7 +89,9 @@ public final class ActsTest {
         }
     }
 
-    private static void shyOnesOnAllSeats() {
+    @Says(value = "Terms 1: If all of them are SHY, each of them has 12 by how many they are (cut) of FINES.",
+        by = "said from each SEAT")
+    static void shyOnesOnAllSeats() {
         KnowsBetter made = Checks.table("KP2baP2baP2baP2baP2ba");
         for (int liar = 0; liar < 5; liar++) {
             CHECKS.due("liar " + liar, made.say(liar, 0, 1), Checks.NONE);
@@ -102,7 +102,10 @@ public final class ActsTest {
         }
     }
 
-    private static void nobodyKnows() {
+    @Says({
+        "Promise 9: SAID: who puts it right; NONE.",
+        "Terms 1: If nobody KNOWS it, nothing is (it is an ACT all the same)."})
+    static void nobodyKnows() {
         KnowsBetter made = Checks.table("KP0aaP0aaP0baP0aaP0aa");
         CHECKS.due("who knows is too far", made.say(0, 0, 1), Checks.NONE);
         CHECKS.due("only the liar knows", made.say(2, 0, 2), Checks.NONE);
@@ -112,7 +115,8 @@ public final class ActsTest {
         CHECKS.due("one alone", Checks.table("KP0hh").say(0, 0, 2), Checks.NONE);
     }
 
-    private static void sayRefusals() {
+    @Says("Promise 9: UNKNOWN: person, fact; BAD: voice.")
+    static void sayRefusals() {
         KnowsBetter made = Checks.table("KP0aaP0ba");
         CHECKS.due("say(2, 0, 1)", made.say(2, 0, 1), Checks.UNKNOWN);
         CHECKS.due("say(-1, 0, 1)", made.say(-1, 0, 1), Checks.UNKNOWN);
@@ -126,7 +130,11 @@ public final class ActsTest {
         CHECKS.due("fines", made.about(2), 0);
     }
 
-    private static void teachAndForget() {
+    @Says({
+        "Promise 10: TAUGHT: what it KNOWS then, as bits. UNKNOWN: person, fact; LATE: it was TOLD that.",
+        "Promise 11: FORGOT: what it KNOWS then, as bits. UNKNOWN: person, fact; LATE: it was not TOLD that.",
+        "Terms 1: TAUGHT: one is TOLD a FACT. FORGOT: one is not TOLD a FACT any more."})
+    static void teachAndForget() {
         KnowsBetter made = Checks.table("KP0baP0aaR012");
         CHECKS.due("teach by a rule", made.teach(0, 1), 7);
         CHECKS.due("known, not told", made.person(0, 1), 3);
@@ -146,7 +154,10 @@ public final class ActsTest {
         }
     }
 
-    private static void change() {
+    @Says({
+        "Promise 12: CHANGED: the SEAT of the one then. UNKNOWN: person, other; BAD: both are one.",
+        "Terms 1: CHANGED: two change their SEATS."})
+    static void change() {
         KnowsBetter made = Checks.table("KP0aaP0aaP0aa");
         CHECKS.due("change(0, 2)", made.change(0, 2), 2);
         CHECKS.due("seat of 0", made.person(0, 3), 2);
@@ -159,7 +170,10 @@ public final class ActsTest {
         CHECKS.due("change(-1, -1)", made.change(-1, -1), Checks.UNKNOWN);
     }
 
-    private static void undoOfEachAct() {
+    @Says({
+        "Promise 13: The last ACT is undone: how many are left. LATE: there is none.",
+        "Terms 1: the last one can be undone."})
+    static void undoOfEachAct() {
         KnowsBetter made = Checks.table("KP0caP0baP2baP2ba");
         made.say(0, 0, 1);
         made.teach(0, 5);
@@ -181,7 +195,8 @@ public final class ActsTest {
         CHECKS.due("told", made.person(0, 1), 2);
     }
 
-    private static void fourteenActs() {
+    @Says("Terms 1: (14 at most; when it is full, the first one is forgotten); the last one can be undone.")
+    static void fourteenActs() {
         KnowsBetter made = Checks.table("KP0aaP0aa");
         for (int act = 1; act <= 17; act++) {
             if (act % 2 == 1) {
@@ -205,7 +220,8 @@ public final class ActsTest {
         CHECKS.due("seats of one change", made.person(0, 3), 1);
     }
 
-    private static void refusedIsNoAct() {
+    @Says(value = "Terms 4: What is refused changes nothing.", by = "it is no ACT")
+    static void refusedIsNoAct() {
         KnowsBetter made = Checks.table("KP0baP0aa");
         made.teach(0, 0);
         made.forget(0, 3);

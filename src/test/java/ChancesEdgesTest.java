@@ -8,7 +8,7 @@ public final class ChancesEdgesTest {
     private static final BigInteger WRAP = BigInteger.ONE.shiftLeft(64);
 
     public static void main(String[] args) throws ReflectiveOperationException {
-        CHECKS.runEdges(ChancesEdgesTest.class);
+        CHECKS.run(ChancesEdgesTest.class);
         CHECKS.end("ChancesEdgesTest");
     }
 
@@ -24,7 +24,7 @@ public final class ChancesEdgesTest {
 
     // ---- promise 25
 
-    @Edge("Promise 25: UNKNOWN: person, fact; BAD: voice, x.")
+    @Says("Promise 25: UNKNOWN: person, fact; BAD: voice, x.")
     static void deafRefusals() {
         KnowsBetter made = Checks.table("KP0hhP0hhP0hh");
         boolean[] both = {true, false};
@@ -48,7 +48,7 @@ public final class ChancesEdgesTest {
         CHECKS.due("x 0", made.deaf(0, 0, 1, 0, true), 0);
     }
 
-    @Edge("Terms 3: DEAF: deaf by x tenths (0 .. 10), by itself (x at each tenth, none to four that KNOW)")
+    @Says(value = "Terms 3: is deaf by x tenths (0 .. 10), by itself", by = "x at each tenth, none to four that KNOW")
     static void deafAtEachTenth() {
         for (int knowing = 0; knowing <= 4; knowing++) {
             KnowsBetter made = Checks.table("KP0ba" + "P0ba".repeat(knowing) + "P0aa".repeat(4 - knowing));
@@ -63,7 +63,7 @@ public final class ChancesEdgesTest {
         }
     }
 
-    @Edge("Terms 3: that nobody is left that KNOWS it: a FRACTION. (sure, never, nobody there)")
+    @Says(value = "Terms 3: that nobody is left that KNOWS it: a FRACTION.", by = "sure, never, nobody there")
     static void deafSureAndNever() {
         KnowsBetter made = Checks.table("KP0aaP0hh");
         CHECKS.due("all are deaf, above", made.deaf(0, 0, 1, 10, true), 1);
@@ -77,7 +77,7 @@ public final class ChancesEdgesTest {
         CHECKS.due("one alone, below", alone.deaf(0, 0, 2, 7, false), 1);
     }
 
-    @Edge("Terms 3: each of those that HEAR it (not who is too far off; who is SHY, too)")
+    @Says(value = "Terms 3: each of those that HEAR it", by = "not who is too far off; who is SHY, too")
     static void deafOfSuchAsHear() {
         KnowsBetter made = Checks.table("KP0aaP2baP0baP1baP0aa");
         CHECKS.due("voice 1: one knows", made.deaf(0, 0, 1, 1, false), 10);
@@ -89,7 +89,7 @@ public final class ChancesEdgesTest {
 
     // ---- promise 26
 
-    @Edge("Promise 26: THE SEED is v: what it was.")
+    @Says("Promise 26: THE SEED is v: what it was.")
     static void seedOfEachEnd() {
         long[] seeds = {0, -1, 1, Long.MAX_VALUE, Long.MIN_VALUE, 1L << 32, -1L << 32, 0xffffffffL, 1L << 31};
         KnowsBetter made = new KnowsBetter();
@@ -101,7 +101,7 @@ public final class ChancesEdgesTest {
         CHECKS.due("the last one", made.seed(0), was);
     }
 
-    @Edge("Terms 3: THE SEED, a long; 0 at first")
+    @Says("Terms 3: THE SEED, a long; 0 at first")
     static void seedIs0AtFirst() {
         CHECKS.due("seed", new KnowsBetter().seed(5), 0);
         KnowsBetter made = Checks.table("KP0aa");
@@ -109,7 +109,8 @@ public final class ChancesEdgesTest {
         CHECKS.due("one evening from 0", made.seed(0), 1442695040888963407L);
     }
 
-    @Edge("Terms 3: x becomes x times 6364136223846793005 and 1442695040888963407 (64 bits, wrapping)")
+    @Says("Terms 3: x (THE SEED, a long; 0 at first) becomes x times 6364136223846793005 and 1442695040888963407 "
+            + "(64 bits, wrapping)")
     static void seedWraps() {
         long[] seeds = {1, -1, Long.MIN_VALUE, Long.MAX_VALUE};
         long[] due = {7806831264735756412L, -4921441182957829598L, -7780676995965812401L, 4301930853896946210L};
@@ -129,7 +130,7 @@ public final class ChancesEdgesTest {
 
     // ---- promise 27
 
-    @Edge("Promise 27: EVENINGS. BAD: m.")
+    @Says("Promise 27: EVENINGS. BAD: m.")
     static void eveningsFrom1To30() {
         KnowsBetter made = new KnowsBetter();
         int[] bad = {0, 31, -1, Integer.MAX_VALUE, Integer.MIN_VALUE};
@@ -156,7 +157,7 @@ public final class ChancesEdgesTest {
         return made.evenings(1);
     }
 
-    @Edge("Terms 3: what is left of its upper 31 bits by 60")
+    @Says("Terms 3: what is left of its upper 31 bits by 60")
     static void upper31Bits() {
         long most = (1L << 31) - 1;
         long ones = (1L << 33) - 1;
@@ -175,7 +176,7 @@ public final class ChancesEdgesTest {
         CHECKS.due("not another fact", fines("KP0aaP0hf", 1L << 30, 0), 0);
     }
 
-    @Edge("Terms 3: that by 12 (down) is a PERSON, what is left by 12: a FACT, and 6 more for a VOICE of 2 (else 1)")
+    @Says("Terms 3: that by 12 (down) is a PERSON, what is left by 12: a FACT, and 6 more for a VOICE of 2 (else 1)")
     static void eachDrawOfSixty() {
         for (int draw = 0; draw < 60; draw++) {
             int person = draw / 12;
@@ -198,7 +199,7 @@ public final class ChancesEdgesTest {
         return "K" + others.repeat(one) + part + others.repeat(4 - one);
     }
 
-    @Edge("Terms 3: it is SAID, if there is such a one")
+    @Says("Terms 3: it is SAID, if there is such a one")
     static void drawOfNobody() {
         for (int people = 0; people <= 5; people++) {
             for (int draw = 0; draw < 60; draw++) {
@@ -211,7 +212,7 @@ public final class ChancesEdgesTest {
         }
     }
 
-    @Edge("Terms 3: what FINES are more at last, all together.")
+    @Says("Terms 3: what FINES are more at last, all together.")
     static void moreFinesThanBefore() {
         KnowsBetter made = Checks.table("KP0aaP2ba");
         for (int times = 0; times < 5; times++) {
@@ -227,7 +228,7 @@ public final class ChancesEdgesTest {
         CHECKS.due("two shy ones, 6 each", fines("KP0aaP2baP2ba", 0, 0), 12);
     }
 
-    @Edge("Terms 3: m times .. it is SAID (each behind those ahead)")
+    @Says(value = "Terms 3: EVENINGS by THE SEED: m times (1 .. 30)", by = "each evening goes on from those ahead")
     static void eveningsGoOnFromOneAnother() {
         KnowsBetter made = Checks.table("KP0baP0aaP0aaP0aaP0aa");
         KnowsBetter said = Checks.table("KP0baP0aaP0aaP0aaP0aa");
@@ -244,7 +245,7 @@ public final class ChancesEdgesTest {
         CHECKS.due("nobody was told in truth", made.about(3), 1);
     }
 
-    @Edge("Terms 3: (Nothing changes but THE SEED.)")
+    @Says("Terms 3: (Nothing changes but THE SEED.)")
     static void nothingChangesButTheSeed() {
         KnowsBetter made = Checks.table("KP0hhP0aaP2hhP0aaP2hh");
         made.change(0, 4);

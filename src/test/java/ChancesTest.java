@@ -3,19 +3,18 @@ public final class ChancesTest {
     private static final Checks CHECKS = new Checks();
     private static final long MULTIPLIER = 6364136223846793005L, INCREMENT = 1442695040888963407L;
 
-    public static void main(String[] args) {
-        rests();
-        deaf();
-        deafRefusals();
-        seed();
-        eveningsMoveTheSeed();
-        eveningsByOneDraw();
-        eveningsOneBehindAnother();
-        eveningsChangeNothingElse();
+    public static void main(String[] args) throws ReflectiveOperationException {
+        CHECKS.run(ChancesTest.class);
         CHECKS.end("ChancesTest");
     }
 
-    private static void rests() {
+    @Says({
+        "Promise 24: RESTS: how many (what = 0), the first one (1). BAD.",
+        "Terms 3: RESTS of two who know: each waits 0 .. 3 breaths; if both wait 3, both pay 6; else who waits "
+            + "no longer than the other one speaks up and pays 3, who waits longer pays 1, and each (who speaks up, "
+            + "too) 1 more for each breath till somebody speaks up (who wait alike both speak up): pairs in which "
+            + "neither pays less by another wait alone: how many; the first one (10 times the one and the other)."})
+    static void rests() {
         KnowsBetter made = new KnowsBetter();
         // 0 and 2, 0 and 3, and the other way round.
         CHECKS.due("rests(0)", made.rests(0), 4);
@@ -24,7 +23,11 @@ public final class ChancesTest {
         CHECKS.due("rests(2)", made.rests(2), Checks.BAD);
     }
 
-    private static void deaf() {
+    @Says({
+        "Promise 25: DEAF.",
+        "Terms 3: DEAF: when a PERSON says a FACT falsely by a VOICE, each of those that HEAR it is deaf by x "
+            + "tenths (0 .. 10), by itself: that nobody is left that KNOWS it: a FRACTION."})
+    static void deaf() {
         KnowsBetter made = Checks.table("KP0baP0daP1baP2baP0baR013");
         fraction(made, 0, 0, 1, 5, 1, 4);
         fraction(made, 0, 0, 2, 5, 1, 8);
@@ -45,7 +48,8 @@ public final class ChancesTest {
         CHECKS.due(call + " below", made.deaf(person, fact, voice, x, false), lower);
     }
 
-    private static void deafRefusals() {
+    @Says("Promise 25: UNKNOWN: person, fact; BAD: voice, x.")
+    static void deafRefusals() {
         KnowsBetter made = Checks.table("KP0aaP0ba");
         CHECKS.due("person", made.deaf(2, 0, 1, 5, true), Checks.UNKNOWN);
         CHECKS.due("person", made.deaf(-1, 0, 3, 11, true), Checks.UNKNOWN);
@@ -58,7 +62,8 @@ public final class ChancesTest {
         CHECKS.due("x", made.deaf(0, 5, 1, 11, false), Checks.BAD);
     }
 
-    private static void seed() {
+    @Says("Promise 26: THE SEED is v: what it was.")
+    static void seed() {
         KnowsBetter made = new KnowsBetter();
         CHECKS.due("seed at first", made.seed(Long.MIN_VALUE), 0);
         CHECKS.due("seed", made.seed(-1), Long.MIN_VALUE);
@@ -68,7 +73,11 @@ public final class ChancesTest {
         CHECKS.due("one step from 0", made.seed(0), INCREMENT);
     }
 
-    private static void eveningsMoveTheSeed() {
+    @Says({
+        "Promise 27: EVENINGS. BAD: m.",
+        "Terms 3: EVENINGS by THE SEED: m times (1 .. 30) x (THE SEED, a long; 0 at first) becomes x times "
+            + "6364136223846793005 and 1442695040888963407 (64 bits, wrapping)"})
+    static void eveningsMoveTheSeed() {
         KnowsBetter made = new KnowsBetter();
         made.seed(12345);
         CHECKS.due("m 0", made.evenings(0), Checks.BAD);
@@ -96,7 +105,9 @@ public final class ChancesTest {
         return (int) ((seed * MULTIPLIER + INCREMENT >>> 33) % 60);
     }
 
-    private static void eveningsByOneDraw() {
+    @Says("Terms 3: what is left of its upper 31 bits by 60: that by 12 (down) is a PERSON, what is left by 12: "
+            + "a FACT, and 6 more for a VOICE of 2 (else 1): it is SAID, if there is such a one")
+    static void eveningsByOneDraw() {
         String text = "KP0aaP2cbP1aaP0adP3ca";
         for (int draw = 0; draw < 60; draw++) {
             KnowsBetter made = Checks.table(text);
@@ -110,7 +121,9 @@ public final class ChancesTest {
         }
     }
 
-    private static void eveningsOneBehindAnother() {
+    @Says(value = "Terms 3: it is SAID, if there is such a one: what FINES are more at last, all together.",
+        by = "fourteen on end")
+    static void eveningsOneBehindAnother() {
         String text = "KP0caP2haP1aaP0adP3ahR014";
         for (int first = 0; first < 20; first++) {
             KnowsBetter made = Checks.table(text);
@@ -132,7 +145,8 @@ public final class ChancesTest {
         }
     }
 
-    private static void eveningsChangeNothingElse() {
+    @Says("Terms 3: (Nothing changes but THE SEED.)")
+    static void eveningsChangeNothingElse() {
         KnowsBetter made = Checks.table("KP0hhP0aaP0aaP2hh");
         made.change(0, 1);
         made.evenings(30);

@@ -1,4 +1,3 @@
-import java.lang.reflect.InvocationTargetException;
 import java.lang.reflect.Method;
 import java.util.Arrays;
 import java.util.Comparator;
@@ -18,19 +17,20 @@ final class Checks {
         }
     }
 
-    /** Runs each test of a class that stands for a sentence of the document; one that fails is told by it. */
-    void runEdges(Class<?> tests) throws IllegalAccessException, InvocationTargetException {
+    /** Runs each test of a class that says what it stands for; of one that fails the document's words are told. */
+    void run(Class<?> tests) throws ReflectiveOperationException {
         Method[] methods = tests.getDeclaredMethods();
         Arrays.sort(methods, Comparator.comparing(Method::getName));
         for (Method method : methods) {
-            Edge edge = method.getAnnotation(Edge.class);
-            if (edge != null) {
+            Says says = method.getAnnotation(Says.class);
+            if (says != null) {
                 int askedBefore = asked;
                 int wrongBefore = wrong;
                 method.invoke(null);
                 due("a test that asks nothing: " + method.getName(), asked == askedBefore ? 1 : 0, 0);
                 if (wrong != wrongBefore) {
-                    System.out.println("  so it does not hold: " + edge.value());
+                    System.out.println("  so it does not hold: " + String.join(" ", says.value())
+                        + (says.by().isEmpty() ? "" : " - " + says.by()));
                 }
             }
         }

@@ -3,13 +3,13 @@ public final class HearingEdgesTest {
     private static final Checks CHECKS = new Checks();
 
     public static void main(String[] args) throws ReflectiveOperationException {
-        CHECKS.runEdges(HearingEdgesTest.class);
+        CHECKS.run(HearingEdgesTest.class);
         CHECKS.end("HearingEdgesTest");
     }
 
     // ---- promise 14
 
-    @Edge("Promise 14: UNKNOWN; BAD: voice.")
+    @Says("Promise 14: UNKNOWN; BAD: voice.")
     static void hearersRefusals() {
         KnowsBetter made = Checks.table("KP0aaP0aaP0aaP0aa");
         CHECKS.due("person -1", made.hearers(-1, 1), -1);
@@ -24,7 +24,7 @@ public final class HearingEdgesTest {
         CHECKS.due("nobody", new KnowsBetter().hearers(0, 1), -1);
     }
 
-    @Edge("Promise 14: Who HEARS a PERSON by a VOICE, as bits. (one alone, up to five)")
+    @Says(value = "Promise 14: Who HEARS a PERSON by a VOICE, as bits.", by = "one alone, up to five")
     static void hearersOfOneToFive() {
         int[] near = {0, 2, 6, 10, 18};
         int[] loud = {0, 2, 6, 14, 30};
@@ -35,7 +35,7 @@ public final class HearingEdgesTest {
         }
     }
 
-    @Edge("Terms 1: One HEARS another one by a VOICE v (1, 2), if it is v FAR at most (WOOL: 1 at most).")
+    @Says("Terms 1: One HEARS another one by a VOICE v (1, 2), if it is v FAR at most (WOOL: 1 at most).")
     static void hearersInWool() {
         KnowsBetter made = Checks.table("KP1aaP1aaP1aaP1aaP1aa");
         for (int person = 0; person < 5; person++) {
@@ -52,7 +52,8 @@ public final class HearingEdgesTest {
         CHECKS.due("to wool that has gone off", one.hearers(4, 2), 14);
     }
 
-    @Edge("Terms 1: SEATS (as many as PEOPLE, behind the last one comes 0) (who HEARS round the end)")
+    @Says(value = "Terms 1: SEATS 0, 1, .. round a table (as many as PEOPLE, behind the last one comes 0)",
+        by = "who HEARS round the end")
     static void hearersRoundTheEnd() {
         KnowsBetter made = Checks.table("KP0aaP0aaP0aaP0aaP0aa");
         CHECKS.due("from seat 0", made.hearers(0, 1), 18);
@@ -67,7 +68,7 @@ public final class HearingEdgesTest {
 
     // ---- promise 15
 
-    @Edge("Promise 15: SAFE, as bits. UNKNOWN; BAD: voice.")
+    @Says("Promise 15: SAFE, as bits. UNKNOWN; BAD: voice.")
     static void safeRefusals() {
         KnowsBetter made = Checks.table("KP0baP0caP0daP0abP0ac");
         CHECKS.due("person -1", made.safe(-1, 1), -1);
@@ -81,7 +82,8 @@ public final class HearingEdgesTest {
         CHECKS.due("nobody", new KnowsBetter().safe(0, 1), -1);
     }
 
-    @Edge("Terms 2: SAFE for a PERSON and a VOICE: FACTS (bits) that nobody KNOWS, of such as HEAR it. (all, none)")
+    @Says(value = "Terms 2: SAFE for a PERSON and a VOICE: FACTS (bits) that nobody KNOWS, of such as HEAR it.",
+        by = "all, none")
     static void safeAllAndNone() {
         CHECKS.due("one alone that knows all", Checks.table("KP0hh").safe(0, 2), 63);
         CHECKS.due("two, the other one knows all", Checks.table("KP0aaP0hh").safe(0, 1), 0);
@@ -94,7 +96,7 @@ public final class HearingEdgesTest {
         CHECKS.due("wool near enough", wool.safe(1, 2), 0);
     }
 
-    @Edge("Terms 2: SAFE .. FACTS that nobody KNOWS (by RULES, too)")
+    @Says(value = "Terms 2: SAFE for a PERSON and a VOICE: FACTS (bits) that nobody KNOWS", by = "by RULES, too")
     static void safeByRules() {
         KnowsBetter made = Checks.table("KP0aaP0daP0aaP0aaR012R023R034R045");
         CHECKS.due("one knows all by rules", made.safe(0, 1), 0);
@@ -105,7 +107,7 @@ public final class HearingEdgesTest {
 
     // ---- promise 16
 
-    @Edge("Promise 16: UNKNOWN: person, fact; BAD: voice.")
+    @Says("Promise 16: UNKNOWN: person, fact; BAD: voice.")
     static void seatingRefusals() {
         KnowsBetter made = Checks.table("KP0hhP0hhP0hh");
         for (int way = 0; way < 4; way++) {
@@ -127,7 +129,8 @@ public final class HearingEdgesTest {
         }
     }
 
-    @Edge("Terms 2: SEATING: of all in which all sit (one alone, two, up to five)")
+    @Says(value = "Terms 2: SEATING for a PERSON, a FACT and a VOICE: of all in which all sit",
+        by = "one alone, two, up to five")
     static void seatingOfOneToFive() {
         int[] figures = {1, 12, 123, 1234, 12345};
         int[] near = {0, 1, 2, 2, 2};
@@ -144,7 +147,7 @@ public final class HearingEdgesTest {
         }
     }
 
-    @Edge("Terms 2: SEATING: PERSON 0 as now")
+    @Says(value = "Terms 2: PERSON 0 as now", by = "on each SEAT")
     static void seatingKeepsPerson0OnEachSeat() {
         int[] figures = {12345, 21345, 23145, 23415, 23451};
         for (int seat = 0; seat < 5; seat++) {
@@ -157,7 +160,8 @@ public final class HearingEdgesTest {
         }
     }
 
-    @Edge("Terms 2: SEATING: of like ones the first (told as figures: .. the least as a number)")
+    @Says("Terms 2: of like ones the first (told as figures: who sits on SEAT 0, 1, .., 1 more each, the least "
+            + "as a number): how many; the figures.")
     static void seatingFirstOfLikeOnes() {
         KnowsBetter lastTwo = Checks.table("KP0aaP0aaP0aaP0baP0ba");
         CHECKS.due("most that know near 0", lastTwo.seating(0, 0, 1, true, false), 2);
@@ -174,7 +178,8 @@ public final class HearingEdgesTest {
         CHECKS.due("how many", middle.seating(2, 0, 1, false, false), 0);
     }
 
-    @Edge("Terms 2: SEATING: the one by which fewest (most) that HEAR it KNOW that FACT (SHY ones, and WOOL 1 off)")
+    @Says(value = "Terms 2: the one by which fewest (most) that HEAR it KNOW that FACT",
+        by = "SHY ones, and WOOL 1 off")
     static void seatingOfShyAndWool() {
         KnowsBetter made = Checks.table("KP0aaP2baP2baP1baP1ba");
         CHECKS.due("wool 2 off, fewest", made.seating(0, 0, 2, false, false), 2);
@@ -186,7 +191,7 @@ public final class HearingEdgesTest {
         CHECKS.due("who says it counts not", made.seating(1, 0, 2, true, false), 3);
     }
 
-    @Edge("Terms 2: In what follows nothing is changed. (SEATING)")
+    @Says(value = "Terms 2: In what follows nothing is changed.", by = "SEATING")
     static void seatingLeavesSeats() {
         KnowsBetter made = Checks.table("KP0aaP0baP0aaP0baP0aa");
         made.change(1, 3);
@@ -202,7 +207,7 @@ public final class HearingEdgesTest {
 
     // ---- promise 17
 
-    @Edge("Promise 17: KEEP, as bits. UNKNOWN: person, fact.")
+    @Says("Promise 17: KEEP, as bits. UNKNOWN: person, fact.")
     static void keepFromRefusals() {
         KnowsBetter made = Checks.table("KP0hhP0aaP0hh");
         CHECKS.due("person -1", made.keepFrom(-1, 0), -1);
@@ -216,7 +221,7 @@ public final class HearingEdgesTest {
         CHECKS.due("nobody", new KnowsBetter().keepFrom(0, 0), -1);
     }
 
-    @Edge("Terms 2: KEEP a PERSON from a FACT: the fewest FACTS .. by which, FORGOT, it does not KNOW it (none)")
+    @Says(value = "Terms 2: KEEP a PERSON from a FACT: the fewest FACTS it was TOLD", by = "none")
     static void keepFromWhatItKnowsNot() {
         KnowsBetter made = Checks.table("KP0aaP0caR015");
         CHECKS.due("told nothing", made.keepFrom(0, 5), 0);
@@ -224,7 +229,9 @@ public final class HearingEdgesTest {
         CHECKS.due("what it was told alone", made.keepFrom(1, 1), 2);
     }
 
-    @Edge("Terms 2: KEEP: the fewest FACTS it was TOLD (one, up to five)")
+    @Says(value = "Terms 2: the fewest FACTS it was TOLD (bits; of like ones the least) by which, FORGOT, it does not "
+            + "KNOW it.",
+        by = "one, up to five")
     static void keepFromOneUpToFive() {
         CHECKS.due("one", Checks.table("KP0hh").keepFrom(0, 5), 32);
         CHECKS.due("two", Checks.table("KP0hhR005").keepFrom(0, 5), 33);
@@ -235,7 +242,7 @@ public final class HearingEdgesTest {
         CHECKS.due("only what it was told", Checks.table("KP0baR001R112R223R335").keepFrom(0, 5), 1);
     }
 
-    @Edge("Terms 2: KEEP: (bits; of like ones the least)")
+    @Says("Terms 2: (bits; of like ones the least) by which, FORGOT")
     static void keepFromTheLeastOfLikeOnes() {
         CHECKS.due("of 0 and 1", Checks.table("KP0daR015").keepFrom(0, 5), 1);
         CHECKS.due("of 3 and 4", Checks.table("KP0adR435").keepFrom(0, 5), 8);

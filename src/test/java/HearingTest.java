@@ -2,19 +2,15 @@
 public final class HearingTest {
     private static final Checks CHECKS = new Checks();
 
-    public static void main(String[] args) {
-        hearers();
-        woolHearsNearOnes();
-        hearersRefusals();
-        safe();
-        seatingOfFewestAndMost();
-        seatingKeepsPersonNought();
-        seatingWithRulesAndWool();
-        seatingRefusals();
+    public static void main(String[] args) throws ReflectiveOperationException {
+        CHECKS.run(HearingTest.class);
         CHECKS.end("HearingTest");
     }
 
-    private static void hearers() {
+    @Says({
+        "Promise 14: Who HEARS a PERSON by a VOICE, as bits.",
+        "Terms 1: One HEARS another one by a VOICE v (1, 2), if it is v FAR at most"})
+    static void hearers() {
         KnowsBetter made = Checks.table("KP0aaP0aaP0aaP0aaP0aa");
         CHECKS.due("hearers(0, 1)", made.hearers(0, 1), 0b10010);
         CHECKS.due("hearers(0, 2)", made.hearers(0, 2), 0b11110);
@@ -29,7 +25,8 @@ public final class HearingTest {
         CHECKS.due("of one", Checks.table("KP0aa").hearers(0, 2), 0);
     }
 
-    private static void woolHearsNearOnes() {
+    @Says("Terms 1: (WOOL: 1 at most)")
+    static void woolHearsNearOnes() {
         KnowsBetter made = Checks.table("KP1aaP1aaP2aaP1aaP3aa");
         CHECKS.due("from wool", made.hearers(0, 2), 0b10110);
         CHECKS.due("wool by 1", made.hearers(0, 1), 0b10010);
@@ -37,7 +34,8 @@ public final class HearingTest {
         CHECKS.due("wool two off", made.hearers(1, 2), 0b10101);
     }
 
-    private static void hearersRefusals() {
+    @Says({"Promise 14: UNKNOWN; BAD: voice.", "Promise 15: UNKNOWN; BAD: voice."})
+    static void hearersRefusals() {
         KnowsBetter made = Checks.table("KP0aaP0aa");
         int[][] wrong = {{2, 1}, {-1, 1}, {2, 0}, {2, 3}};
         for (int[] pair : wrong) {
@@ -51,7 +49,10 @@ public final class HearingTest {
         }
     }
 
-    private static void safe() {
+    @Says({
+        "Promise 15: SAFE, as bits.",
+        "Terms 2: SAFE for a PERSON and a VOICE: FACTS (bits) that nobody KNOWS, of such as HEAR it."})
+    static void safe() {
         KnowsBetter made = Checks.table("KP0hhP0baP0caP1adP2aeR015");
         CHECKS.due("safe(0, 1)", made.safe(0, 1), 63 & ~1 & ~32);
         CHECKS.due("safe(0, 2)", made.safe(0, 2), 63 & ~(1 | 2 | 32));
@@ -65,7 +66,11 @@ public final class HearingTest {
         CHECKS.due("nothing is changed", rule.about(4), 1);
     }
 
-    private static void seatingOfFewestAndMost() {
+    @Says({
+        "Promise 16: SEATING: how many (figures = false), the figures (figures = true).",
+        "Terms 2: SEATING for a PERSON, a FACT and a VOICE: of all in which all sit, PERSON 0 as now, the one "
+            + "by which fewest (most) that HEAR it KNOW that FACT; of like ones the first"})
+    static void seatingOfFewestAndMost() {
         // Three of five know; the neighbours of person 0 are two.
         KnowsBetter made = Checks.table("KP0aaP0baP0baP0aaP0ba");
         CHECKS.due("fewest", made.seating(0, 0, 1, false, false), 1);
@@ -83,7 +88,8 @@ public final class HearingTest {
         CHECKS.due("two", Checks.table("KP0baP0ba").seating(1, 0, 1, false, true), 12);
     }
 
-    private static void seatingKeepsPersonNought() {
+    @Says("Terms 2: of all in which all sit, PERSON 0 as now")
+    static void seatingKeepsPersonNought() {
         KnowsBetter made = Checks.table("KP0aaP0aaP0baP0aa");
         made.change(0, 2);
         CHECKS.due("0 stays on seat 2", made.seating(0, 0, 1, true, true), 2314);
@@ -94,7 +100,8 @@ public final class HearingTest {
         CHECKS.due("most on seat 3", made.seating(0, 0, 1, true, true), 2431);
     }
 
-    private static void seatingWithRulesAndWool() {
+    @Says(value = "Terms 2: the one by which fewest (most) that HEAR it KNOW that FACT", by = "by RULES, and in WOOL")
+    static void seatingWithRulesAndWool() {
         KnowsBetter made = Checks.table("KP0aaP1daP0daP0baP0caR012");
         CHECKS.due("near ones that know by a rule", made.seating(0, 2, 1, true, false), 2);
         CHECKS.due("wool two off hears nothing", made.seating(0, 2, 2, false, false), 1);
@@ -102,7 +109,8 @@ public final class HearingTest {
         CHECKS.due("wool sits near", made.seating(0, 2, 2, true, true), 12345);
     }
 
-    private static void seatingRefusals() {
+    @Says("Promise 16: UNKNOWN: person, fact; BAD: voice.")
+    static void seatingRefusals() {
         KnowsBetter made = Checks.table("KP0aaP0aa");
         CHECKS.due("person", made.seating(2, 0, 1, true, true), Checks.UNKNOWN);
         CHECKS.due("person", made.seating(-1, 0, 0, true, false), Checks.UNKNOWN);

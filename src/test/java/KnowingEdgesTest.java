@@ -4,13 +4,13 @@ public final class KnowingEdgesTest {
     private static final String FIVE_THAT_KNOW_ALL = "KP0hhP0hhP0hhP0hhP0hh";
 
     public static void main(String[] args) throws ReflectiveOperationException {
-        CHECKS.runEdges(KnowingEdgesTest.class);
+        CHECKS.run(KnowingEdgesTest.class);
         CHECKS.end("KnowingEdgesTest");
     }
 
     // ---- promise 18
 
-    @Edge("Promise 18: LEARN, as bits; NONE. UNKNOWN: person, fact.")
+    @Says("Promise 18: LEARN, as bits; NONE. UNKNOWN: person, fact.")
     static void learnRefusals() {
         KnowsBetter made = Checks.table("KP0hhP0aaP0hh");
         CHECKS.due("person -1", made.learn(-1, 0), -1);
@@ -25,7 +25,7 @@ public final class KnowingEdgesTest {
         CHECKS.due("nobody", new KnowsBetter().learn(0, 0), -1);
     }
 
-    @Edge("Terms 2: LEARN: (not that FACT itself); NONE.")
+    @Says("Terms 2: not that FACT itself) by which, TAUGHT, it KNOWS it; 0, if it does; NONE.")
     static void learnNone() {
         CHECKS.due("no rules", Checks.table("KP0aa").learn(0, 0), -9);
         CHECKS.due("a rule from itself", Checks.table("KP0aaR000").learn(0, 0), -9);
@@ -34,7 +34,7 @@ public final class KnowingEdgesTest {
         CHECKS.due("all the others", Checks.table("KP0ghR010R020").learn(0, 0), -9);
     }
 
-    @Edge("Terms 2: LEARN: 0, if it does")
+    @Says("Terms 2: it KNOWS it; 0, if it does")
     static void learnWhatItKnows() {
         KnowsBetter made = Checks.table("KP0daR012R023R034R045");
         for (int fact = 0; fact < 6; fact++) {
@@ -45,7 +45,7 @@ public final class KnowingEdgesTest {
         CHECKS.due("not any more, and no rule gives it", made.learn(0, 1), -9);
     }
 
-    @Edge("Terms 2: LEARN: the fewest FACTS by which, TAUGHT, it KNOWS it (one, two)")
+    @Says(value = "Terms 2: LEARN for a PERSON and a FACT: the fewest FACTS", by = "one, two")
     static void learnOneAndTwo() {
         CHECKS.due("one", Checks.table("KP0aaR550").learn(0, 0), 32);
         CHECKS.due("one to the other", Checks.table("KP0caR150").learn(0, 0), 32);
@@ -54,7 +54,7 @@ public final class KnowingEdgesTest {
         CHECKS.due("the last one of a chain", Checks.table("KP0aaR012R023R034R045").learn(0, 5), 3);
     }
 
-    @Edge("Terms 2: LEARN: (bits, of like ones the least")
+    @Says("Terms 2: (bits, of like ones the least, not that FACT itself)")
     static void learnTheLeastOfLikeOnes() {
         CHECKS.due("of three", Checks.table("KP0aaR005R115R225").learn(0, 5), 1);
         CHECKS.due("told the other way round", Checks.table("KP0aaR335R225R115").learn(0, 5), 2);
@@ -64,7 +64,7 @@ public final class KnowingEdgesTest {
 
     // ---- promise 19
 
-    @Edge("Promise 19: BAD: n, row (0 or more, 3 n figures at most).")
+    @Says("Promise 19: BAD: n, row (0 or more, 3 n figures at most).")
     static void judgeRefusals() {
         KnowsBetter made = Checks.table(FIVE_THAT_KNOW_ALL);
         CHECKS.due("n 0", made.judge(0, 0), -2);
@@ -85,7 +85,8 @@ public final class KnowingEdgesTest {
         }
     }
 
-    @Edge("Terms 2: (a PERSON and 1, a FACT and 1, a VOICE) (there is no such PERSON, FACT, VOICE)")
+    @Says(value = "Terms 2: (a PERSON and 1, a FACT and 1, a VOICE: SAID, and somebody puts it right)",
+        by = "each figure of each thing")
     static void judgeEachThingAtEachPlace() {
         int[] ahead = {0, 111000, 111111000};
         for (int things = 0; things < 1000; things += 100) {
@@ -103,7 +104,8 @@ public final class KnowingEdgesTest {
         }
     }
 
-    @Edge("Terms 2: (there is no such PERSON ..) (of each number of PEOPLE)")
+    @Says(value = "Terms 2: (there is no such PERSON, FACT, VOICE; nobody puts it right)",
+        by = "of each number of PEOPLE")
     static void judgeTheLastPersonAndOneMore() {
         CHECKS.due("nobody", new KnowsBetter().judge(1, 111), 0);
         CHECKS.due("one alone: nobody puts it right", Checks.table("KP0hh").judge(1, 111), 0);
@@ -116,7 +118,7 @@ public final class KnowingEdgesTest {
         }
     }
 
-    @Edge("Terms 2: the place (from 0) of the first that can not be; NONE: none")
+    @Says("Terms 2: the place (from 0) of the first that can not be")
     static void judgeTheFirstOfSeveral() {
         KnowsBetter made = Checks.table(FIVE_THAT_KNOW_ALL);
         int[] rows = {111111111, 111111110, 111110111, 110111111, 111110110, 110110111, 110111110, 110110110};
@@ -128,7 +130,7 @@ public final class KnowingEdgesTest {
         CHECKS.due("fewer figures: the first thing is 0", made.judge(2, 111), 0);
     }
 
-    @Edge("Terms 2: (there is no such PERSON, FACT, VOICE; nobody puts it right)")
+    @Says("Terms 2: (there is no such PERSON, FACT, VOICE; nobody puts it right)")
     static void judgeNobodyPutsItRight() {
         KnowsBetter made = Checks.table("KP0aaP2baP0aaP1caP2aa");
         CHECKS.due("all are shy", made.judge(1, 111), 0);
@@ -139,7 +141,7 @@ public final class KnowingEdgesTest {
         CHECKS.due("no fines", made.about(2), 0);
     }
 
-    @Edge("Terms 2: (each is as if those ahead had been SAID)")
+    @Says("Terms 2: (each is as if those ahead had been SAID)")
     static void judgeBehindThoseAhead() {
         KnowsBetter made = Checks.table("KP0baP0aaP0aaP0aaP0aa");
         CHECKS.due("nobody near 2 knows", made.judge(1, 311), 0);
@@ -156,7 +158,7 @@ public final class KnowingEdgesTest {
 
     // ---- promise 20
 
-    @Edge("Promise 20: SHARE. UNKNOWN.")
+    @Says("Promise 20: SHARE. UNKNOWN.")
     static void shareRefusals() {
         for (int people = 0; people <= 5; people++) {
             KnowsBetter made = Checks.table("K" + "P0hh".repeat(people));
@@ -174,7 +176,7 @@ public final class KnowingEdgesTest {
         }
     }
 
-    @Edge("Terms 2: SHARE of a PERSON (of who brings nothing, and of who brings all)")
+    @Says(value = "Terms 2: SHARE of a PERSON", by = "of who brings nothing, and of who brings all")
     static void shareOfNothingAndOfAll() {
         KnowsBetter made = Checks.table("KP0aaP0hhP0aaP0aaP0aa");
         CHECKS.due("nothing, upper", made.share(0, true), 0);
@@ -186,7 +188,7 @@ public final class KnowingEdgesTest {
         CHECKS.due("alone, nothing", none.share(0, false), 1);
     }
 
-    @Edge("Terms 2: FACTS that they KNOW together (by RULES, from all that they were TOLD)")
+    @Says("Terms 2: FACTS that they KNOW together (by RULES, from all that they were TOLD)")
     static void shareByRulesOfTwo() {
         // Who comes last of the two brings its own fact and four by rules: (1 + 5) by 2.
         KnowsBetter made = Checks.table("KP0baP0caR012R023R034R045");
@@ -201,7 +203,7 @@ public final class KnowingEdgesTest {
         CHECKS.due("lower of 0", three.share(0, false), 6);
     }
 
-    @Edge("Terms 4: FRACTIONS are told above (upper = true), below, in least terms.")
+    @Says("Terms 4: FRACTIONS are told above (upper = true), below, in least terms.")
     static void shareInLeastTerms() {
         KnowsBetter made = Checks.table("KP0baP0baP0baP0baP0bb");
         CHECKS.due("1 by 5", made.share(0, true), 1);

@@ -2,18 +2,16 @@
 public final class KnowingTest {
     private static final Checks CHECKS = new Checks();
 
-    public static void main(String[] args) {
-        keepFrom();
-        learn();
-        judge();
-        judgeOneBehindAnother();
-        judgeRefusals();
-        share();
-        shareByRules();
+    public static void main(String[] args) throws ReflectiveOperationException {
+        CHECKS.run(KnowingTest.class);
         CHECKS.end("KnowingTest");
     }
 
-    private static void keepFrom() {
+    @Says({
+        "Promise 17: KEEP, as bits. UNKNOWN: person, fact.",
+        "Terms 2: KEEP a PERSON from a FACT: the fewest FACTS it was TOLD (bits; of like ones the least) by "
+            + "which, FORGOT, it does not KNOW it."})
+    static void keepFrom() {
         KnowsBetter made = Checks.table("KP0daP0haP0dbP0aaP0dfR012R343R232R034");
         CHECKS.due("of 0 and 1 the least", made.keepFrom(0, 2), 1);
         CHECKS.due("told it, too", made.keepFrom(1, 2), 1 | 4);
@@ -31,7 +29,11 @@ public final class KnowingTest {
         CHECKS.due("fact", made.keepFrom(0, -1), Checks.UNKNOWN);
     }
 
-    private static void learn() {
+    @Says({
+        "Promise 18: LEARN, as bits; NONE. UNKNOWN: person, fact.",
+        "Terms 2: LEARN for a PERSON and a FACT: the fewest FACTS (bits, of like ones the least, not that FACT "
+            + "itself) by which, TAUGHT, it KNOWS it; 0, if it does; NONE."})
+    static void learn() {
         KnowsBetter made = Checks.table("KP0aaP0baP0daP0acR012R342R233R005");
         CHECKS.due("two of four, the least", made.learn(0, 2), 3);
         CHECKS.due("one to what it has", made.learn(1, 2), 2);
@@ -50,7 +52,12 @@ public final class KnowingTest {
         CHECKS.due("fact", made.learn(0, -1), Checks.UNKNOWN);
     }
 
-    private static void judge() {
+    @Says({
+        "Promise 19: JUDGED; NONE.",
+        "Terms 2: JUDGED: n things (1 .. 3), told as three figures each, the first thing's the highest of row "
+            + "(a PERSON and 1, a FACT and 1, a VOICE: SAID, and somebody puts it right): the place (from 0) of the "
+            + "first that can not be (there is no such PERSON, FACT, VOICE; nobody puts it right); NONE: none"})
+    static void judge() {
         KnowsBetter made = Checks.table("KP0baP0aaP2caP0aa");
         CHECKS.due("put right", made.judge(1, 211), Checks.NONE);
         CHECKS.due("nobody knows", made.judge(1, 231), 0);
@@ -71,7 +78,8 @@ public final class KnowingTest {
         CHECKS.due("nobody is told", made.person(2, 1), 2);
     }
 
-    private static void judgeOneBehindAnother() {
+    @Says("Terms 2: NONE: none (each is as if those ahead had been SAID).")
+    static void judgeOneBehindAnother() {
         KnowsBetter made = Checks.table("KP0baP0aaP0aaP0aaP0aa");
         CHECKS.due("who was told puts right", made.judge(3, 211411111), Checks.NONE);
         CHECKS.due("not yet told", made.judge(3, 211111411), 1);
@@ -83,7 +91,8 @@ public final class KnowingTest {
         CHECKS.due("nobody knows it, first", rule.judge(1, 331), 0);
     }
 
-    private static void judgeRefusals() {
+    @Says("Promise 19: BAD: n, row (0 or more, 3 n figures at most).")
+    static void judgeRefusals() {
         KnowsBetter made = Checks.table("KP0baP0aa");
         CHECKS.due("n 0", made.judge(0, 0), Checks.BAD);
         CHECKS.due("n 4", made.judge(4, 0), Checks.BAD);
@@ -101,7 +110,12 @@ public final class KnowingTest {
         CHECKS.due("nobody", new KnowsBetter().judge(1, 111), 0);
     }
 
-    private static void share() {
+    @Says({
+        "Promise 20: SHARE. UNKNOWN.",
+        "Terms 2: SHARE of a PERSON: if PEOPLE come one by one, in each order as likely, and tell each other "
+            + "all that they were TOLD: by how many in the mean FACTS that they KNOW together (by RULES, from all "
+            + "that they were TOLD) are more when it has come than they were: a FRACTION."})
+    static void share() {
         KnowsBetter one = Checks.table("KP0da");
         fraction(one, 0, 2, 1);
         // Both know fact 0, one knows fact 1 alone, too.
@@ -117,7 +131,9 @@ public final class KnowingTest {
         CHECKS.due("person", two.share(-1, false), Checks.UNKNOWN);
     }
 
-    private static void shareByRules() {
+    @Says("Terms 2: FACTS that they KNOW together (by RULES, from all that they were TOLD) are more when it has "
+            + "come than they were")
+    static void shareByRules() {
         // Either alone knows one fact; who comes second brings its own and the rule's.
         KnowsBetter two = Checks.table("KP0baP0caR012");
         fraction(two, 0, 3, 2);

@@ -17,6 +17,8 @@ public final class LanguageTest {
     private static final Checks CHECKS = new Checks();
     private static final Path PROGRAM = Path.of("src/main/java/KnowsBetter.java");
 
+    private static final Set<String> LIBRARY = Set.of("Math.max", "Math.min", "Math.abs", "Integer.bitCount");
+
     private static final String FACE = """
         int write(int)
         int wipe()
@@ -48,12 +50,70 @@ public final class LanguageTest {
         int again(int)
         """;
 
-    public static void main(String[] args) throws IOException {
+    public static void main(String[] args) throws IOException, ReflectiveOperationException {
         face();
         constants();
         members();
-        words(Files.readString(PROGRAM, StandardCharsets.ISO_8859_1));
+        words(source());
+        CHECKS.run(LanguageTest.class);
         CHECKS.end("LanguageTest");
+    }
+
+    private static String source() throws IOException {
+        return Files.readString(PROGRAM, StandardCharsets.ISO_8859_1);
+    }
+
+    @Says({
+        "Terms 4: Ahead of the calls `write`, `wipe`, `fault`, `table`, `about`, `person`, `far` the interface says: "
+            + "---- the table.",
+        "Terms 4: Ahead of the calls `say`, `teach`, `forget`, `change`, `undo` the interface says: ---- acts.",
+        "Terms 4: Ahead of the calls `hearers`, `safe`, `seating`, `keepFrom`, `learn`, `judge`, `share` the interface "
+            + "says: ---- who hears, who knows.",
+        "Terms 4: Ahead of the calls `see`, `unsee`, `minds` the interface says: ---- minds.",
+        "Terms 4: Ahead of the calls `rests`, `deaf`, `seed`, `evenings` the interface says: ---- rests, chances.",
+        "Terms 4: Ahead of the calls `keep`, `again` the interface says: ---- slots."})
+    static void whatTheInterfaceSays() throws IOException {
+        StringBuilder found = new StringBuilder();
+        Matcher line = Pattern.compile("(?m)^    // (---- .*)$|^    public (?:int|long) (\\w+)\\(").matcher(source());
+        while (line.find()) {
+            found.append(line.group(1) == null ? line.group(2) : line.group(1)).append('\n');
+        }
+        holds("ahead of the calls", found.toString().startsWith("""
+            ---- the table
+            write
+            wipe
+            fault
+            table
+            about
+            person
+            far
+            ---- acts
+            say
+            teach
+            forget
+            change
+            undo
+            ---- who hears, who knows
+            hearers
+            safe
+            seating
+            keepFrom
+            learn
+            judge
+            share
+            ---- minds
+            see
+            unsee
+            minds
+            ---- rests, chances
+            rests
+            deaf
+            seed
+            evenings
+            ---- slots
+            keep
+            again
+            """));
     }
 
     private static void holds(String rule, boolean it) {
@@ -139,6 +199,18 @@ public final class LanguageTest {
         for (String sign : signs) {
             holds("no " + sign, !code.contains(sign));
         }
+        Matcher library = Pattern.compile("\\b(Math|Integer|Long|Arrays|List|String\\w*)\\.\\w+").matcher(code);
+        while (library.find()) {
+            holds("rule 4: " + library.group(), LIBRARY.contains(library.group()));
+        }
+        Matcher loop = Pattern.compile("\\bfor \\((.*)\\) \\{|\\b(for|do)\\b").matcher(code);
+        while (loop.find()) {
+            boolean counts = loop.group(1) != null
+                && loop.group(1).matches("int (\\w+) = .+; \\1 <=? .+; \\1(\\+\\+| \\+= PART_BYTES)");
+            holds("rule 9: counts up to a bound: " + loop.group(), counts);
+        }
+        holds("rule 7: an index is used in Row alone", code.replaceAll("cells\\[place\\]", "").chars()
+            .filter(sign -> sign == '[').count() == 2);
         Matcher made = Pattern.compile("\\bnew\\s+(\\w+)").matcher(code);
         while (made.find()) {
             String line = code.substring(code.lastIndexOf('\n', made.start()) + 1, made.start());

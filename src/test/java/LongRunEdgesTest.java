@@ -5,11 +5,13 @@ public final class LongRunEdgesTest {
     private static final String FULL_TABLE = "KP0baP1cbP2daP3ahP0aaR012R233R034R455";
 
     public static void main(String[] args) throws ReflectiveOperationException {
-        CHECKS.runEdges(LongRunEdgesTest.class);
+        CHECKS.run(LongRunEdgesTest.class);
         CHECKS.end("LongRunEdgesTest");
     }
 
-    @Edge("What it is: An object is used for at most 512 calls (the 512th answers as is due)")
+    @Says(value = "What it is: An object is used for at most 512 calls after it has been made; what later calls answer "
+            + "is free.",
+        by = "the 512th call answers as is due")
     static void theLastCall() {
         KnowsBetter made = new KnowsBetter();
         String text = "KP0aaP2ba";
@@ -26,7 +28,7 @@ public final class LongRunEdgesTest {
         CHECKS.due("the 512th call", made.about(2), 12 * said);
     }
 
-    @Edge("What it is: An object is used for at most 512 calls (each of the dear ones, to the last)")
+    @Says(value = "What it is: An object is used for at most 512 calls", by = "each of the dear ones, to the last")
     static void dearCallsToTheLast() {
         KnowsBetter[] made = new KnowsBetter[6];
         long[] first = new long[6];
@@ -53,7 +55,7 @@ public final class LongRunEdgesTest {
         }
     }
 
-    @Edge("What it is: An object is used for at most 512 calls (THE SEED goes on to the last evening)")
+    @Says(value = "What it is: An object is used for at most 512 calls", by = "THE SEED goes on to the last evening")
     static void eveningsToTheLast() {
         KnowsBetter made = new KnowsBetter();
         long due = 0;
@@ -66,7 +68,7 @@ public final class LongRunEdgesTest {
         CHECKS.due("the seed at the 512th call", made.seed(0), due);
     }
 
-    @Edge("What it is: An object is used for at most 512 calls (the row of ACTS to the last)")
+    @Says(value = "What it is: An object is used for at most 512 calls", by = "the row of ACTS to the last")
     static void actsToTheLast() {
         KnowsBetter made = Checks.table("KP0aaP0aa");
         int calls = 11;

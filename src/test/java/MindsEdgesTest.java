@@ -3,7 +3,7 @@ public final class MindsEdgesTest {
     private static final Checks CHECKS = new Checks();
 
     public static void main(String[] args) throws ReflectiveOperationException {
-        CHECKS.runEdges(MindsEdgesTest.class);
+        CHECKS.run(MindsEdgesTest.class);
         CHECKS.end("MindsEdgesTest");
     }
 
@@ -15,7 +15,7 @@ public final class MindsEdgesTest {
 
     // ---- promise 21
 
-    @Edge("Promise 21: UNKNOWN: fact; BAD: spoke (0, 1)")
+    @Says("Promise 21: UNKNOWN: fact; BAD: spoke (0, 1)")
     static void seeRefusals() {
         KnowsBetter made = new KnowsBetter();
         CHECKS.due("fact -1", made.see(-1, 0), -1);
@@ -31,7 +31,7 @@ public final class MindsEdgesTest {
         minds(made, 16, 32, 1);
     }
 
-    @Edge("Promise 21: SEEN: how many there are. FULL: 6.")
+    @Says({"Promise 21: SEEN: how many there are.", "Promise 21: FULL: 6."})
     static void sixSeenAndOneMore() {
         for (int spoke = 0; spoke <= 1; spoke++) {
             KnowsBetter made = new KnowsBetter();
@@ -46,7 +46,7 @@ public final class MindsEdgesTest {
         }
     }
 
-    @Edge("Terms 4: Of several what is told first. (see: UNKNOWN, BAD ahead of FULL)")
+    @Says(value = "Terms 4: Of several what is told first.", by = "see: UNKNOWN, BAD ahead of FULL")
     static void seeRefusalsWhenFull() {
         KnowsBetter made = new KnowsBetter();
         for (int i = 0; i < 6; i++) {
@@ -60,7 +60,7 @@ public final class MindsEdgesTest {
         CHECKS.due("full", made.see(1, 1), -4);
     }
 
-    @Edge("Terms 3: SEEN: 6 such at most, none at first (of like ones each counts)")
+    @Says(value = "Terms 3: 6 such at most, none at first", by = "of like ones each counts")
     static void likeOnesCountEach() {
         KnowsBetter made = new KnowsBetter();
         CHECKS.due("none at first", made.about(5), 0);
@@ -73,7 +73,7 @@ public final class MindsEdgesTest {
 
     // ---- promise 22
 
-    @Edge("Promise 22: Nothing is SEEN: how much there was.")
+    @Says("Promise 22: Nothing is SEEN: how much there was.")
     static void unseeNoneToSix() {
         KnowsBetter made = new KnowsBetter();
         for (int count = 0; count <= 6; count++) {
@@ -90,7 +90,7 @@ public final class MindsEdgesTest {
 
     // ---- promise 23
 
-    @Edge("Promise 23: how many (what = 0), what it KNOWS by all (1), by none (2) .. BAD.")
+    @Says("Promise 23: MINDS: how many (what = 0), what it KNOWS by all (1), by none (2), as bits; NONE. BAD.")
     static void mindsWhatFrom0To2() {
         KnowsBetter made = new KnowsBetter();
         made.see(2, 1);
@@ -102,14 +102,15 @@ public final class MindsEdgesTest {
         CHECKS.due("the least", made.minds(Integer.MIN_VALUE), -2);
     }
 
-    @Edge("Terms 3: sets of FACTS that it may have been TOLD (64 in all) (nothing SEEN)")
+    @Says(value = "Terms 3: sets of FACTS that it may have been TOLD (64 in all)", by = "nothing SEEN")
     static void mindsOfNothingSeen() {
         minds(new KnowsBetter(), 64, 0, 0);
         minds(Checks.table("KR012R233R445R550"), 64, 0, 0);
         minds(Checks.table("KP0hh"), 64, 0, 0);
     }
 
-    @Edge("Terms 3: so that it KNOWS those by which it spoke up, none of those by which it did not (all six)")
+    @Says(value = "Terms 3: so that it KNOWS those by which it spoke up, none of those by which it did not",
+        by = "all six")
     static void mindsOfAllFacts() {
         for (int set = 0; set < 64; set++) {
             KnowsBetter made = new KnowsBetter();
@@ -120,7 +121,7 @@ public final class MindsEdgesTest {
         }
     }
 
-    @Edge("Terms 3: NONE (of the latter two): there are none.")
+    @Says("Terms 3: NONE (of the latter two): there are none.")
     static void mindsOfNone() {
         KnowsBetter made = new KnowsBetter();
         made.see(5, 1);
@@ -138,7 +139,7 @@ public final class MindsEdgesTest {
         minds(rule, 64, 0, 0);
     }
 
-    @Edge("Terms 3: FACTS (bits) that it KNOWS by all; by none (by RULES, too)")
+    @Says(value = "Terms 3: FACTS (bits) that it KNOWS by all; by none", by = "by RULES, too")
     static void mindsByRules() {
         KnowsBetter all = Checks.table("KR001R112R223R334");
         all.see(0, 1);
@@ -157,7 +158,7 @@ public final class MindsEdgesTest {
 
     // ---- promise 24
 
-    @Edge("Promise 24: RESTS: how many (what = 0), the first one (1). BAD.")
+    @Says("Promise 24: RESTS: how many (what = 0), the first one (1). BAD.")
     static void restsWhat0And1() {
         KnowsBetter made = new KnowsBetter();
         CHECKS.due("what -1", made.rests(-1), -2);
@@ -168,7 +169,7 @@ public final class MindsEdgesTest {
         CHECKS.due("the least", made.rests(Integer.MIN_VALUE), -2);
     }
 
-    @Edge("Terms 3: RESTS of two who know: each waits 0 .. 3 breaths")
+    @Says("Terms 3: RESTS of two who know: each waits 0 .. 3 breaths")
     static void restsAreTheSameAtEachTable() {
         String[] tables = {"K", "KP2hhP2hh", "KP0hhP3hhR012"};
         for (String table : tables) {

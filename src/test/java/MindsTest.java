@@ -2,17 +2,16 @@
 public final class MindsTest {
     private static final Checks CHECKS = new Checks();
 
-    public static void main(String[] args) {
-        see();
-        unsee();
-        mindsWithoutRules();
-        mindsWithRules();
-        mindsOfNone();
-        mindsFollowTheTable();
+    public static void main(String[] args) throws ReflectiveOperationException {
+        CHECKS.run(MindsTest.class);
         CHECKS.end("MindsTest");
     }
 
-    private static void see() {
+    @Says({
+        "Promise 21: SEEN: how many there are. UNKNOWN: fact; BAD: spoke (0, 1); FULL: 6.",
+        "Terms 3: SEEN: that somebody spoke up (1) or did not (0), when a FACT was SAID falsely in its "
+            + "hearing: 6 such at most, none at first."})
+    static void see() {
         KnowsBetter made = new KnowsBetter();
         CHECKS.due("see(6, 0)", made.see(6, 0), Checks.UNKNOWN);
         CHECKS.due("see(-1, 2)", made.see(-1, 2), Checks.UNKNOWN);
@@ -29,7 +28,8 @@ public final class MindsTest {
         CHECKS.due("the seventh counts not", made.minds(2), 0);
     }
 
-    private static void unsee() {
+    @Says("Promise 22: Nothing is SEEN: how much there was.")
+    static void unsee() {
         KnowsBetter made = new KnowsBetter();
         CHECKS.due("unsee nothing", made.unsee(), 0);
         made.see(3, 1);
@@ -43,7 +43,11 @@ public final class MindsTest {
         CHECKS.due("minds then", made.minds(0), 32);
     }
 
-    private static void mindsWithoutRules() {
+    @Says({
+        "Promise 23: MINDS: how many (what = 0), what it KNOWS by all (1), by none (2), as bits; NONE. BAD.",
+        "Terms 3: MINDS: sets of FACTS that it may have been TOLD (64 in all), so that it KNOWS those by which "
+            + "it spoke up, none of those by which it did not: how many; FACTS (bits) that it KNOWS by all; by none"})
+    static void mindsWithoutRules() {
         KnowsBetter made = new KnowsBetter();
         made.see(0, 1);
         made.see(3, 1);
@@ -55,7 +59,9 @@ public final class MindsTest {
         CHECKS.due("minds(3)", made.minds(3), Checks.BAD);
     }
 
-    private static void mindsWithRules() {
+    @Says(value = "Terms 3: so that it KNOWS those by which it spoke up, none of those by which it did not",
+        by = "by RULES, too")
+    static void mindsWithRules() {
         KnowsBetter made = Checks.table("KR012R233");
         made.see(2, 0);
         // 0 and 1 not both, and not 2: 3 of 4; 3, 4 and 5 as they like.
@@ -76,7 +82,8 @@ public final class MindsTest {
         CHECKS.due("by none", up.minds(2), 1 | 16);
     }
 
-    private static void mindsOfNone() {
+    @Says("Terms 3: NONE (of the latter two): there are none.")
+    static void mindsOfNone() {
         KnowsBetter made = Checks.table("KP0hhR001");
         made.see(0, 1);
         made.see(1, 0);
@@ -90,7 +97,8 @@ public final class MindsTest {
         CHECKS.due("both ways", made.minds(0), 0);
     }
 
-    private static void mindsFollowTheTable() {
+    @Says(value = "Terms 3: so that it KNOWS those by which it spoke up", by = "by RULES of THE TABLE, not of THE TEXT")
+    static void mindsFollowTheTable() {
         KnowsBetter made = Checks.table("KR012");
         made.see(2, 1);
         CHECKS.due("with the rule", made.minds(0), 40);

@@ -43,7 +43,7 @@ public final class RefusalsTest {
     private static final Range VOICE = new Range(1, 2, -2);
 
     public static void main(String[] args) throws ReflectiveOperationException {
-        CHECKS.runEdges(RefusalsTest.class);
+        CHECKS.run(RefusalsTest.class);
         CHECKS.end("RefusalsTest");
     }
 
@@ -118,7 +118,9 @@ public final class RefusalsTest {
         }
     }
 
-    @Edge("Terms 4: UNKNOWN -1 (there is no such PERSON, FACT, SLOT), BAD -2, LATE -3, FULL -4. NONE is -9.")
+    @Says({
+        "Terms 4: REFUSALS: UNKNOWN -1 (there is no such PERSON, FACT, SLOT), BAD -2, LATE -3, FULL -4.",
+        "Terms 4: NONE is -9."})
     static void numbers() {
         CHECKS.due("UNKNOWN", KnowsBetter.UNKNOWN, -1);
         CHECKS.due("BAD", KnowsBetter.BAD, -2);
@@ -127,7 +129,7 @@ public final class RefusalsTest {
         CHECKS.due("NONE", KnowsBetter.NONE, -9);
     }
 
-    @Edge("Terms 4: What is refused changes nothing. (as far as a trace tells objects apart)")
+    @Says(value = "Terms 4: What is refused changes nothing.", by = "as far as a trace tells objects apart")
     static void tracesTellApart() {
         List<List<String>> traces = new ArrayList<>();
         for (int change = 0; change < 12; change++) {
@@ -160,7 +162,10 @@ public final class RefusalsTest {
 
     // ---- by what is told with the call
 
-    @Edge("Promise 2: BAD; FULL: there are 40. (What is refused changes nothing.)")
+    @Says({
+        "Promise 2: BAD; FULL: there are 40.",
+        "Terms 4: Of several what is told first.",
+        "Terms 4: What is refused changes nothing."})
     static void write() {
         sweep("write", State.NEW, (made, with) -> made.write(with[0]), new Range(0, 255, -2));
         sweep("write", State.IN_USE, (made, with) -> made.write(with[0]), new Range(0, 255, -2));
@@ -168,7 +173,12 @@ public final class RefusalsTest {
         stays("write", State.FULL, -2, made -> made.write(256));
     }
 
-    @Edge("Promises 6, 7, 8: UNKNOWN; BAD. (Of several what is told first.)")
+    @Says({
+        "Promise 6: BAD.",
+        "Promise 7: UNKNOWN; BAD.",
+        "Promise 8: UNKNOWN: both",
+        "Terms 4: Of several what is told first.",
+        "Terms 4: What is refused changes nothing."})
     static void aboutPersonFar() {
         for (State state : State.values()) {
             sweep("about", state, (made, with) -> made.about(with[0]), new Range(0, 6, -2));
@@ -178,14 +188,20 @@ public final class RefusalsTest {
         }
     }
 
-    @Edge("Promise 9: UNKNOWN: person, fact; BAD: voice. (Of several what is told first.)")
+    @Says({
+        "Promise 9: UNKNOWN: person, fact; BAD: voice.",
+        "Terms 4: Of several what is told first.",
+        "Terms 4: What is refused changes nothing."})
     static void say() {
         for (State state : State.values()) {
             sweep("say", state, (made, with) -> made.say(with[0], with[1], with[2]), person(state), FACT, VOICE);
         }
     }
 
-    @Edge("Promises 10, 11: UNKNOWN: person, fact (What is refused changes nothing.)")
+    @Says({
+        "Promise 10: UNKNOWN: person, fact",
+        "Promise 11: UNKNOWN: person, fact",
+        "Terms 4: What is refused changes nothing."})
     static void teachAndForget() {
         for (State state : State.values()) {
             sweep("teach", state, (made, with) -> made.teach(with[0], with[1]), person(state), FACT);
@@ -193,7 +209,10 @@ public final class RefusalsTest {
         }
     }
 
-    @Edge("Promise 12: UNKNOWN: person, other; BAD: both are one. (Of several what is told first.)")
+    @Says({
+        "Promise 12: UNKNOWN: person, other; BAD: both are one.",
+        "Terms 4: Of several what is told first.",
+        "Terms 4: What is refused changes nothing."})
     static void change() {
         for (State state : State.values()) {
             // Both at one end are both one: refused, too, but told behind the others.
@@ -207,7 +226,11 @@ public final class RefusalsTest {
         }
     }
 
-    @Edge("Promises 14, 15: UNKNOWN; BAD: voice. (Of several what is told first.)")
+    @Says({
+        "Promise 14: UNKNOWN; BAD: voice.",
+        "Promise 15: UNKNOWN; BAD: voice.",
+        "Terms 4: Of several what is told first.",
+        "Terms 4: What is refused changes nothing."})
     static void hearersAndSafe() {
         for (State state : State.values()) {
             sweep("hearers", state, (made, with) -> made.hearers(with[0], with[1]), person(state), VOICE);
@@ -215,7 +238,10 @@ public final class RefusalsTest {
         }
     }
 
-    @Edge("Promise 16: UNKNOWN: person, fact; BAD: voice. (Of several what is told first.)")
+    @Says({
+        "Promise 16: UNKNOWN: person, fact; BAD: voice.",
+        "Terms 4: Of several what is told first.",
+        "Terms 4: What is refused changes nothing."})
     static void seating() {
         for (State state : State.values()) {
             sweep("seating", state, (made, with) -> made.seating(with[0], with[1], with[2], true, false),
@@ -225,7 +251,11 @@ public final class RefusalsTest {
         }
     }
 
-    @Edge("Promises 17, 18, 20: UNKNOWN (What is refused changes nothing.)")
+    @Says({
+        "Promise 17: UNKNOWN: person, fact.",
+        "Promise 18: UNKNOWN: person, fact.",
+        "Promise 20: UNKNOWN.",
+        "Terms 4: What is refused changes nothing."})
     static void keepFromLearnShare() {
         for (State state : State.values()) {
             sweep("keepFrom", state, (made, with) -> made.keepFrom(with[0], with[1]), person(state), FACT);
@@ -235,7 +265,7 @@ public final class RefusalsTest {
         }
     }
 
-    @Edge("Promise 19: BAD: n, row (0 or more, 3 n figures at most). (What is refused changes nothing.)")
+    @Says({"Promise 19: BAD: n, row (0 or more, 3 n figures at most).", "Terms 4: What is refused changes nothing."})
     static void judge() {
         for (State state : State.values()) {
             sweep("judge", state, (made, with) -> made.judge(with[0], 111), new Range(1, 3, -2));
@@ -245,7 +275,10 @@ public final class RefusalsTest {
         }
     }
 
-    @Edge("Promise 21: UNKNOWN: fact; BAD: spoke (0, 1); FULL: 6. (Of several what is told first.)")
+    @Says({
+        "Promise 21: UNKNOWN: fact; BAD: spoke (0, 1); FULL: 6.",
+        "Terms 4: Of several what is told first.",
+        "Terms 4: What is refused changes nothing."})
     static void see() {
         Range spoke = new Range(0, 1, -2);
         for (State state : State.values()) {
@@ -255,7 +288,7 @@ public final class RefusalsTest {
         stays("see 5", State.FULL, -4, made -> made.see(5, 1));
     }
 
-    @Edge("Promises 23, 24: BAD. (What is refused changes nothing.)")
+    @Says({"Promise 23: BAD.", "Promise 24: BAD.", "Terms 4: What is refused changes nothing."})
     static void mindsAndRests() {
         for (State state : State.values()) {
             sweep("minds", state, (made, with) -> made.minds(with[0]), new Range(0, 2, -2));
@@ -263,7 +296,10 @@ public final class RefusalsTest {
         }
     }
 
-    @Edge("Promise 25: UNKNOWN: person, fact; BAD: voice, x. (Of several what is told first.)")
+    @Says({
+        "Promise 25: UNKNOWN: person, fact; BAD: voice, x.",
+        "Terms 4: Of several what is told first.",
+        "Terms 4: What is refused changes nothing."})
     static void deaf() {
         Range x = new Range(0, 10, -2);
         sweep("deaf", State.NEW, (made, with) -> made.deaf(with[0], with[1], with[2], with[3], true),
@@ -272,14 +308,21 @@ public final class RefusalsTest {
             person(State.FULL), FACT, VOICE, x);
     }
 
-    @Edge("Promise 27: BAD: m. (What is refused changes nothing: THE SEED, too)")
+    @Says(value = {
+        "Promise 27: BAD: m.",
+        "Terms 4: What is refused changes nothing."},
+        by = "THE SEED, too")
     static void evenings() {
         for (State state : State.values()) {
             sweep("evenings", state, (made, with) -> made.evenings(with[0]), new Range(1, 30, -2));
         }
     }
 
-    @Edge("Promises 28, 29: UNKNOWN (there is no such SLOT) (What is refused changes nothing.)")
+    @Says({
+        "Promise 28: UNKNOWN.",
+        "Promise 29: UNKNOWN",
+        "Terms 4: UNKNOWN -1 (there is no such PERSON, FACT, SLOT)",
+        "Terms 4: What is refused changes nothing."})
     static void keepAndAgain() {
         Range slot = new Range(0, 1, -1);
         for (State state : State.values()) {
@@ -302,26 +345,26 @@ public final class RefusalsTest {
         CHECKS.due(state + " " + name + ": as it was", same ? 1 : 0, 1);
     }
 
-    @Edge("Promise 5: LATE: a FAULT. (What is refused changes nothing.)")
+    @Says({"Promise 5: LATE: a FAULT.", "Terms 4: What is refused changes nothing."})
     static void tableLate() {
         for (State state : State.values()) {
             stays("table", state, -3, KnowsBetter::table);
         }
     }
 
-    @Edge("Promise 10: LATE: it was TOLD that. (What is refused changes nothing.)")
+    @Says({"Promise 10: LATE: it was TOLD that.", "Terms 4: What is refused changes nothing."})
     static void teachLate() {
         stays("teach", State.IN_USE, -3, made -> made.teach(1, 5));
         stays("teach", State.FULL, -3, made -> made.teach(4, 2));
     }
 
-    @Edge("Promise 11: LATE: it was not TOLD that. (What is refused changes nothing.)")
+    @Says({"Promise 11: LATE: it was not TOLD that.", "Terms 4: What is refused changes nothing."})
     static void forgetLate() {
         stays("forget", State.IN_USE, -3, made -> made.forget(2, 0));
         stays("forget", State.FULL, -3, made -> made.forget(2, 3));
     }
 
-    @Edge("Promise 13: LATE: there is none. (What is refused changes nothing.)")
+    @Says({"Promise 13: LATE: there is none.", "Terms 4: What is refused changes nothing."})
     static void undoLate() {
         stays("undo", State.NEW, -3, KnowsBetter::undo);
         KnowsBetter made = inUse();
@@ -334,7 +377,7 @@ public final class RefusalsTest {
         CHECKS.due("as it was", Trace.of(made).equals(Trace.of(other)) ? 1 : 0, 1);
     }
 
-    @Edge("Promise 29: LATE: none were kept. (What is refused changes nothing.)")
+    @Says({"Promise 29: LATE: none were kept.", "Terms 4: What is refused changes nothing."})
     static void againLate() {
         stays("again 0", State.NEW, -3, made -> made.again(0));
         stays("again 1", State.NEW, -3, made -> made.again(1));
@@ -369,7 +412,12 @@ public final class RefusalsTest {
     private static final Range PEOPLE = new Range(0, 3, 0);
     private static final Range SOME_FACTS = new Range(1, 2, 0);
 
-    @Edge("Terms 1: FAULT; FAR; KNOWS (asked, nothing is changed)")
+    @Says(value = {
+        "Promise 4: FAULT; NONE.",
+        "Promise 6: PEOPLE (what = 0), RULES (1)",
+        "Promise 7: Of a PERSON its KIND",
+        "Promise 8: FAR."},
+        by = "asked, nothing is changed")
     static void tableIsAsked() {
         asked("fault", (made, with) -> made.fault());
         asked("about", (made, with) -> made.about(with[0]), new Range(0, 6, 0));
@@ -377,7 +425,7 @@ public final class RefusalsTest {
         asked("far", (made, with) -> made.far(with[0], with[1]), PEOPLE, PEOPLE);
     }
 
-    @Edge("Terms 2: In what follows nothing is changed.")
+    @Says("Terms 2: In what follows nothing is changed.")
     static void hearingIsAsked() {
         asked("hearers", (made, with) -> made.hearers(with[0], with[1]), PEOPLE, VOICE);
         asked("safe", (made, with) -> made.safe(with[0], with[1]), PEOPLE, VOICE);
@@ -390,14 +438,18 @@ public final class RefusalsTest {
         asked("share", (made, with) -> made.share(with[0], with[1] == 1), PEOPLE, new Range(0, 1, 0));
     }
 
-    @Edge("Terms 3: MINDS, RESTS, DEAF (asked, nothing is changed)")
+    @Says(value = {
+        "Promise 23: MINDS",
+        "Promise 24: RESTS",
+        "Promise 25: DEAF."},
+        by = "asked, nothing is changed")
     static void mindsAreAsked() {
         asked("minds", (made, with) -> made.minds(with[0]), new Range(0, 2, 0));
         asked("rests", (made, with) -> made.rests(with[0]), new Range(0, 1, 0));
         asked("deaf", (made, with) -> made.deaf(with[0], with[1], with[2], 5, true), PEOPLE, SOME_FACTS, VOICE);
     }
 
-    @Edge("Terms 3: (Nothing changes but THE SEED.) (evenings)")
+    @Says(value = "Terms 3: (Nothing changes but THE SEED.)", by = "as far as a trace tells")
     static void eveningsAreAsked() {
         asked("evenings", (made, with) -> {
             long was = made.seed(with[0]);
@@ -407,7 +459,7 @@ public final class RefusalsTest {
         }, new Range(1, 6, 0));
     }
 
-    @Edge("Promise 28: They are kept (and nothing else is changed)")
+    @Says(value = "Promise 28: They are kept", by = "and nothing else is changed")
     static void keepIsNoAct() {
         KnowsBetter made = inUse();
         KnowsBetter other = inUse();

@@ -3,13 +3,13 @@ public final class SlotsEdgesTest {
     private static final Checks CHECKS = new Checks();
 
     public static void main(String[] args) throws ReflectiveOperationException {
-        CHECKS.runEdges(SlotsEdgesTest.class);
+        CHECKS.run(SlotsEdgesTest.class);
         CHECKS.end("SlotsEdgesTest");
     }
 
     // ---- promise 28
 
-    @Edge("Promise 28: UNKNOWN. (SLOTS 0 .. 1)")
+    @Says(value = "Promise 28: UNKNOWN.", by = "SLOTS 0 .. 1")
     static void keepIn0And1() {
         KnowsBetter made = Checks.table("KP0aa");
         CHECKS.due("slot -1", made.keep(-1), -1);
@@ -23,7 +23,7 @@ public final class SlotsEdgesTest {
         CHECKS.due("slot 1", made.keep(1), 0);
     }
 
-    @Edge("Promise 28: They are kept: FINES of all. (none, and some of each)")
+    @Says(value = "Promise 28: They are kept: FINES of all.", by = "none, and some of each")
     static void keepAnswersFines() {
         KnowsBetter made = Checks.table("KP0aaP2baP2baP2baP2ba");
         CHECKS.due("none", made.keep(0), 0);
@@ -36,7 +36,7 @@ public final class SlotsEdgesTest {
         CHECKS.due("fines of one of them", made.person(4, 4), 3);
     }
 
-    @Edge("Promise 28: They are kept (again, over what was kept; the other SLOT stays)")
+    @Says(value = "Promise 28: They are kept", by = "again, over what was kept; the other SLOT stays")
     static void keepOverWhatWasKept() {
         KnowsBetter made = Checks.table("KP0aa");
         made.keep(1);
@@ -52,7 +52,7 @@ public final class SlotsEdgesTest {
         CHECKS.due("the other slot", made.person(0, 1), 0);
     }
 
-    @Edge("Terms 3: SLOTS keep what all were TOLD, SEATS, FINES (no ACTS when one goes on: when kept they stay)")
+    @Says(value = "Terms 3: (no ACTS when one goes on)", by = "when they are kept the ACTS stay")
     static void keepLeavesActs() {
         KnowsBetter made = Checks.table("KP0aaP0aa");
         for (int act = 0; act < 14; act++) {
@@ -66,7 +66,7 @@ public final class SlotsEdgesTest {
 
     // ---- promise 29
 
-    @Edge("Promise 29: UNKNOWN; LATE: none were kept.")
+    @Says("Promise 29: UNKNOWN; LATE: none were kept.")
     static void againOf0And1() {
         KnowsBetter made = Checks.table("KP0aa");
         CHECKS.due("slot -1", made.again(-1), -1);
@@ -86,7 +86,7 @@ public final class SlotsEdgesTest {
         CHECKS.due("the least", made.again(Integer.MIN_VALUE), -1);
     }
 
-    @Edge("Promise 29: LATE: none were kept. (at first, and behind a TABLE made anew)")
+    @Says(value = "Promise 29: LATE: none were kept.", by = "at first, and behind a TABLE made anew")
     static void againOfNobody() {
         KnowsBetter made = new KnowsBetter();
         CHECKS.due("at first", made.again(0), -3);
@@ -102,7 +102,7 @@ public final class SlotsEdgesTest {
         CHECKS.due("again", made.again(0), 0);
     }
 
-    @Edge("Terms 3: what all were TOLD, SEATS, FINES (of all five)")
+    @Says(value = "Terms 3: what all were TOLD, SEATS, FINES", by = "of all five")
     static void againOfAllFive() {
         KnowsBetter made = Checks.table("KP0aaP0baP2caP1ehP3hh");
         made.say(1, 1, 1);
@@ -135,7 +135,7 @@ public final class SlotsEdgesTest {
         }
     }
 
-    @Edge("Terms 3: (no ACTS when one goes on)")
+    @Says("Terms 3: (no ACTS when one goes on)")
     static void againForgetsActs() {
         KnowsBetter made = Checks.table("KP0aaP0aa");
         made.keep(0);
@@ -155,7 +155,7 @@ public final class SlotsEdgesTest {
         CHECKS.due("undo()", made.undo(), -3);
     }
 
-    @Edge("Promise 29: They are as they were kept (THE TEXT, SEEN, THE SEED are not kept)")
+    @Says(value = "Promise 29: They are as they were kept", by = "THE TEXT, SEEN, THE SEED are not kept")
     static void againLeavesTheRest() {
         KnowsBetter made = Checks.table("KP0aa");
         made.keep(0);
@@ -168,7 +168,8 @@ public final class SlotsEdgesTest {
         CHECKS.due("bytes", made.about(6), 6);
     }
 
-    @Edge("Promise 29: They are as they were kept: FINES of all. (what is kept stays when one goes on from it)")
+    @Says(value = "Promise 29: They are as they were kept: FINES of all.",
+        by = "what is kept stays when one goes on from it")
     static void againAndAgain() {
         KnowsBetter made = Checks.table("KP0aaP2ba");
         made.say(0, 0, 1);

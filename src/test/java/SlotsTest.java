@@ -2,15 +2,16 @@
 public final class SlotsTest {
     private static final Checks CHECKS = new Checks();
 
-    public static void main(String[] args) {
-        keepAndGoOn();
-        twoSlots();
-        slotsOfNobody();
-        refusals();
+    public static void main(String[] args) throws ReflectiveOperationException {
+        CHECKS.run(SlotsTest.class);
         CHECKS.end("SlotsTest");
     }
 
-    private static void keepAndGoOn() {
+    @Says({
+        "Promise 28: They are kept: FINES of all.",
+        "Promise 29: They are as they were kept: FINES of all.",
+        "Terms 3: SLOTS 0 .. 1 keep what all were TOLD, SEATS, FINES (no ACTS when one goes on)."})
+    static void keepAndGoOn() {
         KnowsBetter made = Checks.table("KP0aaP2baP0aa");
         made.say(0, 0, 1);
         made.change(1, 2);
@@ -39,7 +40,8 @@ public final class SlotsTest {
         CHECKS.due("told to 0", made.person(0, 1), 0);
     }
 
-    private static void twoSlots() {
+    @Says(value = "Terms 3: SLOTS 0 .. 1 keep what all were TOLD", by = "each its own")
+    static void twoSlots() {
         KnowsBetter made = Checks.table("KP0aaP0ba");
         made.keep(0);
         made.teach(0, 1);
@@ -56,7 +58,11 @@ public final class SlotsTest {
         CHECKS.due("slot 1 still", made.again(1), 0);
     }
 
-    private static void slotsOfNobody() {
+    @Says(value = {
+        "Promise 28: They are kept: FINES of all.",
+        "Promise 29: LATE: none were kept."},
+        by = "before the first TABLE")
+    static void slotsOfNobody() {
         KnowsBetter made = new KnowsBetter();
         CHECKS.due("keep nobody", made.keep(1), 0);
         CHECKS.due("again nobody", made.again(1), 0);
@@ -67,7 +73,8 @@ public final class SlotsTest {
         CHECKS.due("and nothing changed", made.person(0, 1), 1);
     }
 
-    private static void refusals() {
+    @Says({"Promise 28: UNKNOWN.", "Promise 29: UNKNOWN; LATE: none were kept."})
+    static void refusals() {
         KnowsBetter made = Checks.table("KP0aaP0ba");
         made.teach(0, 1);
         int[] slots = {-1, 2, 32, Integer.MIN_VALUE, Integer.MAX_VALUE};

@@ -3,7 +3,7 @@ public final class TableEdgesTest {
     private static final Checks CHECKS = new Checks();
 
     public static void main(String[] args) throws ReflectiveOperationException {
-        CHECKS.runEdges(TableEdgesTest.class);
+        CHECKS.run(TableEdgesTest.class);
         CHECKS.end("TableEdgesTest");
     }
 
@@ -13,7 +13,7 @@ public final class TableEdgesTest {
 
     // ---- promise 5
 
-    @Edge("Promise 5: 10 times PEOPLE, and RULES.")
+    @Says("Promise 5: 10 times PEOPLE, and RULES.")
     static void nobodyToFiveAndNoRulesToFour() {
         for (int people = 0; people <= 5; people++) {
             for (int rules = 0; rules <= 4; rules++) {
@@ -25,7 +25,7 @@ public final class TableEdgesTest {
         }
     }
 
-    @Edge("Promise 5: LATE: a FAULT.")
+    @Says("Promise 5: LATE: a FAULT.")
     static void tableOfAFault() {
         String[] texts = {"", "P", "KP", "KP0", "KP0a", "KP0aaR", "KP4aa", "KR006", "KP0aaK", "K" + people(6)};
         for (String text : texts) {
@@ -37,7 +37,7 @@ public final class TableEdgesTest {
         }
     }
 
-    @Edge("Promise 5: (THE TEXT itself stays")
+    @Says("Promise 5: (THE TEXT itself stays")
     static void textStays() {
         KnowsBetter made = Checks.table("KP0baR001");
         CHECKS.due("bytes", made.about(6), 9);
@@ -47,7 +47,7 @@ public final class TableEdgesTest {
         CHECKS.due("fault", made.fault(), 10);
     }
 
-    @Edge("Promise 5: no ACTS; what was kept is gone")
+    @Says("Promise 5: no ACTS; what was kept is gone")
     static void actsAndSlotsGo() {
         KnowsBetter made = Checks.table("KP0aaP0aa");
         for (int act = 0; act < 14; act++) {
@@ -63,7 +63,7 @@ public final class TableEdgesTest {
         CHECKS.due("again(1)", made.again(1), -3);
     }
 
-    @Edge("Promise 5: SEEN, THE SEED stay)")
+    @Says("Promise 5: SEEN, THE SEED stay)")
     static void seenAndSeedStay() {
         KnowsBetter made = Checks.written("KP0aa");
         for (int i = 0; i < 6; i++) {
@@ -77,7 +77,7 @@ public final class TableEdgesTest {
         CHECKS.due("the seed", made.seed(0), Long.MIN_VALUE);
     }
 
-    @Edge("Terms 1: When THE TABLE is made anew, PERSON p sits on SEAT p, nobody has FINES.")
+    @Says("Terms 1: When THE TABLE is made anew, PERSON p sits on SEAT p, nobody has FINES.")
     static void tableAnew() {
         KnowsBetter made = Checks.table("KP0aaP2baP2baP2baP0ba");
         made.say(1, 0, 1);
@@ -93,7 +93,7 @@ public final class TableEdgesTest {
         CHECKS.due("fines of all", made.about(2), 0);
     }
 
-    @Edge("Terms 1: PEOPLE 0, 1, .. (who sat at the table before is gone)")
+    @Says(value = "Terms 1: PEOPLE 0, 1, ..", by = "who sat at the table before is gone")
     static void fewerPeopleAnew() {
         KnowsBetter made = Checks.table("KP1hhP2hhP3hhP0hhP0hhR012");
         Checks.rewrite(made, "KP0aa");
@@ -111,7 +111,9 @@ public final class TableEdgesTest {
 
     // ---- promise 6
 
-    @Edge("Promise 6: (what = 0) .. (6). BAD.")
+    @Says(value = "Promise 6: PEOPLE (what = 0), RULES (1), FINES of all (2), FACTS that somebody KNOWS (3: bits), "
+            + "ACTS (4), SEEN (5), bytes of THE TEXT (6). BAD.",
+        by = "from 0 to 6")
     static void aboutFrom0To6() {
         KnowsBetter made = Checks.table("KP0aa");
         CHECKS.due("about(-1)", made.about(-1), -2);
@@ -122,7 +124,9 @@ public final class TableEdgesTest {
         CHECKS.due("about(the least)", made.about(Integer.MIN_VALUE), -2);
     }
 
-    @Edge("Promise 6: PEOPLE, RULES, FINES, FACTS, ACTS, SEEN, bytes (none of each)")
+    @Says(value = "Promise 6: PEOPLE (what = 0), RULES (1), FINES of all (2), FACTS that somebody KNOWS (3: bits), "
+            + "ACTS (4), SEEN (5), bytes of THE TEXT (6).",
+        by = "none of each")
     static void aboutOfNothing() {
         KnowsBetter made = new KnowsBetter();
         for (int what = 0; what <= 6; what++) {
@@ -130,7 +134,9 @@ public final class TableEdgesTest {
         }
     }
 
-    @Edge("Promise 6: PEOPLE, RULES, FINES, FACTS, ACTS, SEEN, bytes (all of each)")
+    @Says(value = "Promise 6: PEOPLE (what = 0), RULES (1), FINES of all (2), FACTS that somebody KNOWS (3: bits), "
+            + "ACTS (4), SEEN (5), bytes of THE TEXT (6).",
+        by = "as many of each as there may be")
     static void aboutOfAll() {
         KnowsBetter made = Checks.table("KP0aaP2baP2aaP2aaP2aaR000R001R112R345");
         made.teach(0, 3);
@@ -146,7 +152,7 @@ public final class TableEdgesTest {
         }
     }
 
-    @Edge("Promise 6: FACTS that somebody KNOWS (3: bits)")
+    @Says("Promise 6: FACTS that somebody KNOWS (3: bits)")
     static void knownBySomebody() {
         CHECKS.due("by nobody", Checks.table("KP0aaP0aa").about(3), 0);
         CHECKS.due("by two, half each", Checks.table("KP0haP0ah").about(3), 63);
@@ -158,7 +164,7 @@ public final class TableEdgesTest {
 
     // ---- promise 7
 
-    @Edge("Promise 7: Of a PERSON .. UNKNOWN")
+    @Says(value = "Promise 7: UNKNOWN", by = "from 0 to the last one")
     static void personFrom0ToTheLast() {
         for (int people = 0; people <= 5; people++) {
             KnowsBetter made = Checks.table("K" + people(people));
@@ -171,7 +177,9 @@ public final class TableEdgesTest {
         }
     }
 
-    @Edge("Promise 7: its KIND (what = 0) .. FINES (4). UNKNOWN; BAD.")
+    @Says(value = "Promise 7: Of a PERSON its KIND (what = 0), what it was TOLD (1: bits), what it KNOWS (2: bits), "
+            + "its SEAT (3), FINES (4). UNKNOWN; BAD.",
+        by = "from 0 to 4")
     static void personWhatFrom0To4() {
         KnowsBetter made = Checks.table("KP3hhP2ba");
         CHECKS.due("what -1", made.person(0, -1), -2);
@@ -184,7 +192,7 @@ public final class TableEdgesTest {
         CHECKS.due("no such person ahead of a bad what", made.person(-1, -1), -1);
     }
 
-    @Edge("Promise 7: FINES (4) (they have no end)")
+    @Says(value = "Promise 7: FINES (4)", by = "they have no end")
     static void finesGoOn() {
         KnowsBetter made = Checks.table("KP0aaP2ba");
         for (int times = 1; times <= 300; times++) {
@@ -194,7 +202,7 @@ public final class TableEdgesTest {
         CHECKS.due("fines of all", made.about(2), 3600);
     }
 
-    @Edge("Terms 1: One KNOWS what it was TOLD (no RULES)")
+    @Says(value = "Terms 1: One KNOWS what it was TOLD", by = "no RULES")
     static void knownWithoutRules() {
         for (int facts = 0; facts < 64; facts++) {
             KnowsBetter made = Checks.table("KP0" + (char) ('a' + facts % 8) + (char) ('a' + facts / 8));
@@ -203,7 +211,7 @@ public final class TableEdgesTest {
         }
     }
 
-    @Edge("Terms 1: and what RULES give from that, and so on.")
+    @Says("Terms 1: and what RULES give from that, and so on.")
     static void rulesGiveOnInEachOrder() {
         String[] rules = {"R012", "R023", "R034", "R045"};
         int orders = 0;
@@ -219,7 +227,7 @@ public final class TableEdgesTest {
         CHECKS.due("orders", orders, 24);
     }
 
-    @Edge("Terms 1: who knows FACTS i and j knows k, too (of one alone nothing; i and j may be one)")
+    @Says(value = "Terms 1: who knows FACTS i and j knows k, too", by = "of one alone nothing; i and j may be one")
     static void ruleOfOneFactAndOfTwo() {
         CHECKS.due("i alone", Checks.table("KP0baR015").person(0, 2), 1);
         CHECKS.due("j alone", Checks.table("KP0caR015").person(0, 2), 2);
@@ -232,7 +240,7 @@ public final class TableEdgesTest {
 
     // ---- promise 8
 
-    @Edge("Promise 8: UNKNOWN: both; 0 from itself.")
+    @Says("Promise 8: UNKNOWN: both; 0 from itself.")
     static void farUnknownAndItself() {
         for (int people = 0; people <= 5; people++) {
             KnowsBetter made = Checks.table("K" + people(people));
@@ -248,7 +256,7 @@ public final class TableEdgesTest {
         }
     }
 
-    @Edge("Terms 1: FAR from one to another one: how many SEATS on, one way round or the other, the fewer.")
+    @Says("Terms 1: FAR from one to another one: how many SEATS on, one way round or the other, the fewer.")
     static void farBothWaysRound() {
         int[][] fromSeat0 = {{0}, {0, 1}, {0, 1, 1}, {0, 1, 2, 1}, {0, 1, 2, 2, 1}};
         for (int people = 1; people <= 5; people++) {
@@ -263,7 +271,7 @@ public final class TableEdgesTest {
         }
     }
 
-    @Edge("Terms 1: SEATS 0, 1, .. round a table (as many as PEOPLE, behind the last one comes 0)")
+    @Says("Terms 1: SEATS 0, 1, .. round a table (as many as PEOPLE, behind the last one comes 0)")
     static void behindTheLastSeatComes0() {
         for (int people = 2; people <= 5; people++) {
             KnowsBetter made = Checks.table("K" + people(people - 1) + "P0ba");
@@ -276,7 +284,7 @@ public final class TableEdgesTest {
         }
     }
 
-    @Edge("Terms 1: FAR .. how many SEATS on (of SEATS, not of PEOPLE)")
+    @Says(value = "Terms 1: how many SEATS on", by = "of SEATS, not of PEOPLE")
     static void farIsOfSeats() {
         KnowsBetter made = Checks.table("K" + people(5));
         made.change(0, 2);

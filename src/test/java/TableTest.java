@@ -2,25 +2,22 @@
 public final class TableTest {
     private static final Checks CHECKS = new Checks();
 
-    public static void main(String[] args) {
-        tableAnswers();
-        tableMakesAllAnew();
-        refusedTableChangesNothing();
-        about();
-        person();
-        rulesGoOn();
-        far();
+    public static void main(String[] args) throws ReflectiveOperationException {
+        CHECKS.run(TableTest.class);
         CHECKS.end("TableTest");
     }
 
-    private static void tableAnswers() {
+    @Says("Promise 5: 10 times PEOPLE, and RULES.")
+    static void tableAnswers() {
         CHECKS.due("table() of K", Checks.written("K").table(), 0);
         CHECKS.due("table() of one", Checks.written("KP0aa").table(), 10);
         CHECKS.due("table() of a rule", Checks.written("KR012").table(), 1);
         CHECKS.due("table() of all", Checks.written("KR000P0aaR000P0aaR000P0aaR000P0aaP0aa").table(), 54);
     }
 
-    private static void tableMakesAllAnew() {
+    @Says("Promise 5: THE TEXT is THE TABLE (THE TEXT itself stays; no ACTS; what was kept is gone; SEEN, THE "
+            + "SEED stay)")
+    static void tableMakesAllAnew() {
         KnowsBetter made = Checks.table("KP0baP2baP0aa");
         made.say(0, 0, 1);
         made.change(0, 1);
@@ -50,7 +47,8 @@ public final class TableTest {
         CHECKS.due("told", made.person(0, 1), 8);
     }
 
-    private static void refusedTableChangesNothing() {
+    @Says({"Promise 5: LATE: a FAULT.", "Terms 4: What is refused changes nothing."})
+    static void refusedTableChangesNothing() {
         KnowsBetter made = Checks.table("KP0baR012");
         made.teach(0, 1);
         made.keep(0);
@@ -63,7 +61,9 @@ public final class TableTest {
         CHECKS.due("kept", made.again(0), 0);
     }
 
-    private static void about() {
+    @Says("Promise 6: PEOPLE (what = 0), RULES (1), FINES of all (2), FACTS that somebody KNOWS (3: bits), ACTS "
+            + "(4), SEEN (5), bytes of THE TEXT (6). BAD.")
+    static void about() {
         KnowsBetter made = Checks.table("KP0caP2baP3adR013");
         made.see(0, 1);
         made.see(1, 0);
@@ -83,7 +83,12 @@ public final class TableTest {
         CHECKS.due("nobody knows 3 of two alone", Checks.table("KP0baP0caR013").about(3), 3);
     }
 
-    private static void person() {
+    @Says({
+        "Promise 7: Of a PERSON its KIND (what = 0), what it was TOLD (1: bits), what it KNOWS (2: bits), its "
+            + "SEAT (3), FINES (4). UNKNOWN; BAD.",
+        "Terms 1: Pkxy a PERSON of KIND k (0 PLAIN, 1 WOOL, 2 SHY, 3 LICENSED) that was TOLD FACTS by x, y (a "
+            + ".. h each: a is 0, b 1, .. h 7; as bits: x of FACTS 0 .. 2, y of 3 .. 5)"})
+    static void person() {
         KnowsBetter made = Checks.table("KP0baP1caP2hhP3db");
         int[] told = {1, 2, 63, 3 | 8};
         for (int person = 0; person < 4; person++) {
@@ -100,7 +105,10 @@ public final class TableTest {
         CHECKS.due("person(4, 9)", made.person(4, 9), Checks.UNKNOWN);
     }
 
-    private static void rulesGoOn() {
+    @Says({
+        "Terms 1: Rijk a RULE: who knows FACTS i and j knows k, too (0 .. 5 each; 4 RULES at most)",
+        "Terms 1: One KNOWS what it was TOLD, and what RULES give from that, and so on."})
+    static void rulesGoOn() {
         // Told backwards, so that each pass over the rules gives one fact more.
         KnowsBetter made = Checks.table("KP0daR045R034R023R012");
         CHECKS.due("told", made.person(0, 1), 3);
@@ -110,7 +118,10 @@ public final class TableTest {
         CHECKS.due("nothing from nothing", Checks.table("KP0aaR000").person(0, 2), 0);
     }
 
-    private static void far() {
+    @Says({
+        "Promise 8: FAR. UNKNOWN: both; 0 from itself.",
+        "Terms 1: FAR from one to another one: how many SEATS on, one way round or the other, the fewer."})
+    static void far() {
         KnowsBetter made = Checks.table("KP0aaP0aaP0aaP0aaP0aa");
         int[] fromNought = {0, 1, 2, 2, 1};
         for (int other = 0; other < 5; other++) {

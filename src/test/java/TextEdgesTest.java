@@ -5,7 +5,7 @@ public final class TextEdgesTest {
     private static final String FOUR_RULES = "R000R000R000R000";
 
     public static void main(String[] args) throws ReflectiveOperationException {
-        CHECKS.runEdges(TextEdgesTest.class);
+        CHECKS.run(TextEdgesTest.class);
         CHECKS.end("TextEdgesTest");
     }
 
@@ -23,7 +23,7 @@ public final class TextEdgesTest {
 
     // ---- promise 1
 
-    @Edge("Promise 1: Nobody.")
+    @Says("Promise 1: Nobody.")
     static void newObjectHasNobody() {
         KnowsBetter made = new KnowsBetter();
         CHECKS.due("people", made.about(0), 0);
@@ -36,7 +36,7 @@ public final class TextEdgesTest {
         CHECKS.due("share(0, true)", made.share(0, true), -1);
     }
 
-    @Edge("Terms 1: At first there is nobody, there are no RULES.")
+    @Says("Terms 1: At first there is nobody, there are no RULES.")
     static void newObjectHasNoRules() {
         KnowsBetter made = new KnowsBetter();
         CHECKS.due("rules", made.about(1), 0);
@@ -48,7 +48,7 @@ public final class TextEdgesTest {
         }
     }
 
-    @Edge("Promise 1: Nobody. (no ACTS, nothing kept, an empty TEXT)")
+    @Says(value = "Promise 1: Nobody.", by = "no ACTS, nothing kept, an empty TEXT")
     static void newObjectHasNothingElse() {
         KnowsBetter made = new KnowsBetter();
         CHECKS.due("acts", made.about(4), 0);
@@ -61,7 +61,7 @@ public final class TextEdgesTest {
 
     // ---- promise 2
 
-    @Edge("Promise 2: A byte (0 .. 255) comes behind THE TEXT: how long it is. BAD")
+    @Says("Promise 2: A byte (0 .. 255) comes behind THE TEXT: how long it is. BAD")
     static void byteFrom0To255() {
         KnowsBetter made = new KnowsBetter();
         CHECKS.due("write(-1)", made.write(-1), -2);
@@ -75,7 +75,7 @@ public final class TextEdgesTest {
         CHECKS.due("bytes", made.about(6), 2);
     }
 
-    @Edge("Promise 2: A byte comes behind THE TEXT: how long it is. (each of the 256)")
+    @Says(value = "Promise 2: A byte (0 .. 255) comes behind THE TEXT", by = "each of the 256")
     static void eachByteIsTaken() {
         for (int first = 0; first < 256; first += 32) {
             KnowsBetter made = new KnowsBetter();
@@ -85,7 +85,7 @@ public final class TextEdgesTest {
         }
     }
 
-    @Edge("Promise 2: FULL: there are 40.")
+    @Says("Promise 2: FULL: there are 40.")
     static void fullAtForty() {
         KnowsBetter made = filled(38);
         CHECKS.due("the 39th byte", made.write('x'), 39);
@@ -95,7 +95,7 @@ public final class TextEdgesTest {
         CHECKS.due("bytes", made.about(6), 40);
     }
 
-    @Edge("Terms 1: THE TEXT is bytes (40 at most).")
+    @Says("Terms 1: THE TEXT is bytes (40 at most).")
     static void fortyBytesAreWipedAndWritten() {
         KnowsBetter made = filled(40);
         CHECKS.due("wipe()", made.wipe(), 40);
@@ -103,7 +103,7 @@ public final class TextEdgesTest {
         CHECKS.due("nothing of the forty is left", made.fault(), -9);
     }
 
-    @Edge("Terms 4: Of several what is told first. (write: BAD ahead of FULL)")
+    @Says(value = "Terms 4: Of several what is told first.", by = "write: BAD ahead of FULL")
     static void badAheadOfFull() {
         KnowsBetter made = filled(40);
         CHECKS.due("write(256)", made.write(256), -2);
@@ -114,7 +114,7 @@ public final class TextEdgesTest {
 
     // ---- promise 3
 
-    @Edge("Promise 3: THE TEXT is empty: how long it was.")
+    @Says("Promise 3: THE TEXT is empty: how long it was.")
     static void wipeOfEachLength() {
         for (int length = 0; length <= 40; length++) {
             KnowsBetter made = filled(length);
@@ -126,7 +126,7 @@ public final class TextEdgesTest {
 
     // ---- promise 4
 
-    @Edge("Promise 4: FAULT; NONE. (from no byte to forty, and one more)")
+    @Says(value = "Promise 4: FAULT; NONE.", by = "from no byte to forty, and one more")
     static void faultAsItIsWritten() {
         String text = "K" + FIVE + FOUR_RULES + "R00";
         KnowsBetter made = new KnowsBetter();
@@ -142,7 +142,7 @@ public final class TextEdgesTest {
         CHECKS.due("no byte again", made.fault(), 0);
     }
 
-    @Edge("Terms 1: its length, if it is only not at its end")
+    @Says("Terms 1: its length, if it is only not at its end")
     static void eachStartOfATable() {
         String text = "KP0aaP3hhR000P1ahR555P2haR050R505P0cd";
         for (int length = 0; length <= text.length(); length++) {
@@ -151,7 +151,7 @@ public final class TextEdgesTest {
         }
     }
 
-    @Edge("Terms 1: A TABLE is a TEXT: K, then PARTS, none or more")
+    @Says("Terms 1: A TABLE is a TEXT: K, then PARTS, none or more")
     static void noPartsAndAsManyAsThereAre() {
         fault("", 0);
         fault("K", -9);
@@ -162,7 +162,7 @@ public final class TextEdgesTest {
         fault("KK", 1);
     }
 
-    @Edge("Terms 1: the place (from 0) of the first byte by which THE TEXT can be no TABLE, whatever came behind it")
+    @Says("Terms 1: the place (from 0) of the first byte by which THE TEXT can be no TABLE, whatever came behind it")
     static void firstFaultOfSeveral() {
         String text = "KP0aaR012P3hh";
         for (int place = 0; place < text.length(); place++) {
@@ -174,7 +174,11 @@ public final class TextEdgesTest {
         }
     }
 
-    @Edge("Terms 1: K, then PARTS; Pkxy; Rijk (each byte at each place)")
+    @Says(value = {
+        "Terms 1: A TABLE is a TEXT: K, then PARTS",
+        "Terms 1: Pkxy a PERSON",
+        "Terms 1: Rijk a RULE"},
+        by = "each byte at each place")
     static void eachByteAtEachPlace() {
         eachByte("", "K");
         eachByte("K", "PR");
@@ -201,7 +205,7 @@ public final class TextEdgesTest {
         }
     }
 
-    @Edge("Terms 1: a PERSON of KIND k (0 PLAIN, 1 WOOL, 2 SHY, 3 LICENSED)")
+    @Says("Terms 1: a PERSON of KIND k (0 PLAIN, 1 WOOL, 2 SHY, 3 LICENSED)")
     static void kindFrom0To3() {
         fault("KP/aa", 2);
         fault("KP4aa", 2);
@@ -210,7 +214,7 @@ public final class TextEdgesTest {
         CHECKS.due("the last kind", made.person(1, 0), 3);
     }
 
-    @Edge("Terms 1: x, y (a .. h each: a is 0, b 1, .. h 7; as bits: x of FACTS 0 .. 2, y of 3 .. 5)")
+    @Says("Terms 1: x, y (a .. h each: a is 0, b 1, .. h 7; as bits: x of FACTS 0 .. 2, y of 3 .. 5)")
     static void letterFromAToH() {
         fault("KP0`a", 3);
         fault("KP0ia", 3);
@@ -225,7 +229,7 @@ public final class TextEdgesTest {
         CHECKS.due("no facts", Checks.table("KP0aa").person(0, 1), 0);
     }
 
-    @Edge("Terms 1: a RULE: who knows FACTS i and j knows k, too (0 .. 5 each")
+    @Says("Terms 1: a RULE: who knows FACTS i and j knows k, too (0 .. 5 each")
     static void ruleOfFacts0To5() {
         fault("KR/00", 2);
         fault("KR600", 2);
@@ -237,7 +241,7 @@ public final class TextEdgesTest {
         CHECKS.due("the first facts", Checks.table("KP0agR540").person(0, 2), 16 | 32 | 1);
     }
 
-    @Edge("Terms 1: PEOPLE 0, 1, .. (5 at most)")
+    @Says("Terms 1: PEOPLE 0, 1, .. (5 at most)")
     static void fivePeople() {
         fault("K" + FIVE, -9);
         fault("K" + FIVE + "P", 21);
@@ -248,7 +252,7 @@ public final class TextEdgesTest {
         CHECKS.due("table() of six", Checks.written("K" + FIVE + "P0aa").table(), -3);
     }
 
-    @Edge("Terms 1: 4 RULES at most")
+    @Says("Terms 1: 4 RULES at most")
     static void fourRules() {
         fault("K" + FOUR_RULES, -9);
         fault("K" + FOUR_RULES + "R", 17);
@@ -258,7 +262,7 @@ public final class TextEdgesTest {
         CHECKS.due("table() of five", Checks.written("K" + FOUR_RULES + "R000").table(), -3);
     }
 
-    @Edge("Terms 1: (its length set aside) (the longest table, and one of 40 bytes)")
+    @Says(value = "Terms 1: (its length set aside)", by = "the longest table, and one of 40 bytes")
     static void longestTableAndLongestText() {
         String longest = "K" + FIVE + FOUR_RULES;
         fault(longest, -9);
@@ -272,7 +276,7 @@ public final class TextEdgesTest {
         CHECKS.due("and one that was refused", full.fault(), 1);
     }
 
-    @Edge("Terms 1: PARTS, numbered as they are told, each kind for itself")
+    @Says("Terms 1: K, then PARTS, none or more, numbered as they are told, each kind for itself")
     static void peopleAndRulesMixed() {
         KnowsBetter made = Checks.table("KR012P1baR233P2cbP3aa");
         CHECKS.due("kind of 0", made.person(0, 0), 1);

@@ -2,17 +2,13 @@
 public final class TextTest {
     private static final Checks CHECKS = new Checks();
 
-    public static void main(String[] args) {
-        newObject();
-        write();
-        wipe();
-        faultByByte();
-        faultAtTheEnd();
-        faultByTooMany();
+    public static void main(String[] args) throws ReflectiveOperationException {
+        CHECKS.run(TextTest.class);
         CHECKS.end("TextTest");
     }
 
-    private static void newObject() {
+    @Says("Promise 1: Nobody.")
+    static void newObject() {
         KnowsBetter made = new KnowsBetter();
         for (int what = 0; what <= 6; what++) {
             CHECKS.due("new: about(" + what + ")", made.about(what), 0);
@@ -25,7 +21,8 @@ public final class TextTest {
         CHECKS.due("new: seed(1)", made.seed(1), 0);
     }
 
-    private static void write() {
+    @Says("Promise 2: A byte (0 .. 255) comes behind THE TEXT: how long it is. BAD; FULL: there are 40.")
+    static void write() {
         KnowsBetter made = new KnowsBetter();
         CHECKS.due("write(0)", made.write(0), 1);
         CHECKS.due("write(255)", made.write(255), 2);
@@ -41,7 +38,8 @@ public final class TextTest {
         CHECKS.due("fault by the first byte", made.fault(), 0);
     }
 
-    private static void wipe() {
+    @Says("Promise 3: THE TEXT is empty: how long it was.")
+    static void wipe() {
         KnowsBetter made = Checks.written("KP0aa");
         CHECKS.due("wipe()", made.wipe(), 5);
         CHECKS.due("wipe()", made.wipe(), 0);
@@ -52,7 +50,9 @@ public final class TextTest {
         CHECKS.due("old bytes count no more", made.table(), 0);
     }
 
-    private static void faultByByte() {
+    @Says("Terms 1: FAULT: the place (from 0) of the first byte by which THE TEXT can be no TABLE, whatever came "
+            + "behind it")
+    static void faultByByte() {
         fault("X", 0);
         fault("k", 0);
         fault("PK", 0);
@@ -84,7 +84,8 @@ public final class TextTest {
         fault("KP0a0", 4);
     }
 
-    private static void faultAtTheEnd() {
+    @Says("Terms 1: its length, if it is only not at its end; NONE: none.")
+    static void faultAtTheEnd() {
         fault("", 0);
         fault("K", Checks.NONE);
         fault("KP", 2);
@@ -96,7 +97,8 @@ public final class TextTest {
         fault("KP0aaR01", 8);
     }
 
-    private static void faultByTooMany() {
+    @Says({"Terms 1: 5, PEOPLE 0, 1, .. (5 at most)", "Terms 1: 4 RULES at most"})
+    static void faultByTooMany() {
         String people = "P0aaP0aaP0aaP0aaP0aa";
         String rules = "R000R000R000R000";
         fault("K" + people, Checks.NONE);
