@@ -2,8 +2,8 @@
  * People round a table who must put right, at once, a false thing said in their hearing.
  *
  * <p>The numbered promises that the methods keep stand in ../shared/DOC.md. No call makes an
- * object: all rows are made with the table and used again, since all calls of a run share one
- * room.
+ * object: all rows are made in the constructor and used again, since all calls of a run share
+ * one room.
  */
 public final class KnowsBetter {
     public static final int UNKNOWN = -1, BAD = -2, LATE = -3, FULL = -4, NONE = -9;

@@ -215,7 +215,7 @@ public final class LanguageTest {
         while (made.find()) {
             String line = code.substring(code.lastIndexOf('\n', made.start()) + 1, made.start());
             boolean kept = line.matches("\\s*(private final \\w+ \\w+|\\w+|Table shared) = ");
-            holds("made with the table alone: " + line + made.group(), kept);
+            holds("made in constructors alone: " + line + made.group(), kept);
         }
     }
 }
